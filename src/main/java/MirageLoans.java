@@ -449,8 +449,6 @@ public final class MirageLoans {
         int which = loanOf(seat, thing);
         ahead.copy(now);
         ahead.keepOnly(which);
-        // its COINS are not looked at: empty ones never reach the most that can be
-        ahead.coins[seat] = 0;
         ahead.rent[seat] = 0;
         ahead.lent[which] = n;
         ahead.unseen[which] = 0;
@@ -1110,7 +1108,7 @@ public final class MirageLoans {
             vars[DAY] = hour / DAY_HOURS;
         }
 
-        /** From an X a THING is looked at: what isSeen, moved, spot and rent tell is of it. */
+        /** From an X a THING is looked at: what isSeen, moved, spot and, last, rent tell is of it. */
         void aim(int hour, int warm, int x, int thingX, int tall) {
             vars[HOUR] = hour % DAY_HOURS;
             vars[DAY] = hour / DAY_HOURS;
@@ -1141,9 +1139,7 @@ public final class MirageLoans {
 
         int rent(int lent) {
             vars[LENT] = lent;
-            int told = within(0, reckon(RENT), 99);
-            vars[LENT] = 0;
-            return told;
+            return within(0, reckon(RENT), 99);
         }
 
         private int reckon(int law) {
@@ -1370,6 +1366,7 @@ public final class MirageLoans {
             unseen[which] = 0;
         }
 
+        /** Loans do not touch one another: where one is asked for, the others need not go through hours. */
         void keepOnly(int kept) {
             for (int which = 0; which < lent.length; which++) {
                 if (which != kept) {

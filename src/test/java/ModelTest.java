@@ -123,7 +123,7 @@ public final class ModelTest {
   private String mildLaw(String law) {
     switch (law) {
       case "heat": return new String[] {"hour * 2", "if hour < 12 then hour * 2 else 48 - hour * 2", "20 - hour / (day + 1)", "30"}[any(4)];
-      case "seen": return new String[] {"warm - far", "warm - far * 2 + tall", "warm + tall - across - 5 * side", "tall * 3 - far", "20 - hour"}[any(5)];
+      case "seen": return new String[] {"warm - far", "warm - far * 2 + tall", "warm + tall - across - 5 * side", "tall * 3 - far", "20 - hour", "warm - far - lent * 9"}[any(6)];
       case "moved": return new String[] {"warm / 4", "far / 2 - 3", "3 - tall", "side * 4 - 2", "at - across"}[any(5)];
       case "rent": return new String[] {"tall + lent / 10", "99", "far + 1", "lent"}[any(4)];
       default: return new String[] {"10", "warm", "lent / 2", "99"}[any(4)];
@@ -131,8 +131,8 @@ public final class ModelTest {
   }
   private String text() {
     List<String> tells = new ArrayList<>();
-    int things = odds(97) ? 1 + any(5) : any(9);
-    int seats = odds(97) ? 1 + any(5) : any(9);
+    int things = odds(97) ? 1 + any(6) : any(9);
+    int seats = odds(97) ? 1 + any(6) : any(9);
     for (int i = 0; i < things; i++)
       tells.add("thing" + " t" + (char) ('a' + i) + " " + (odds(99) ? any(20) : any(30)) + " " + (odds(99) ? 1 + any(9) : any(12)));
     for (int i = 0; i < seats; i++)

@@ -43,7 +43,7 @@ public final class PromisesTest {
     promise = "2, 3"; theTape();
     promise = "4, 5"; tokens(); grammar(); room(); twiceAndWrong(); whatReadChanges();
     promise = "6 to 9"; laws(); whatIs();
-    promise = "10 to 14"; byHand(); hoursGoBy(); mostCoins(); undone();
+    promise = "10 to 14"; byHand(); hoursGoBy(); mostCoins(); fullHouse(); undone();
     promise = "15 to 19"; sights();
     promise = "16"; clashes();
     promise = "20, 21"; nearAndCrowd();
@@ -100,6 +100,8 @@ public final class PromisesTest {
     fault("thing abcdefghi 1 1;", 1, 6);
     fault("thingabc 1 1;", 1, 0);
     fault("thing a1 1;", 0, -1);
+    fault("thing z 1 1; seat az 1 1; seat za 1 1;", 0, -1);
+    fault("seed 0; winds 0; begins 0; grace 1;", 0, -1);
     fault("thing a 0019 0009;", 0, -1);
     fault("thing a 00019 9;", 1, 8);
     fault("seed9999;begins23;winds100;grace99;", 0, -1);
@@ -157,6 +159,8 @@ public final class PromisesTest {
     fault(law + "3; seen = if 1 < 0 then 2 else 3;", 0, -1);
     fault("heat = ((((((1))))));", 0, -1);
     fault("heat = ((((((1))))))+((((((1))))));", 0, -1);
+    fault("heat = if ((((((1)))))) < ((((((1)))))) then ((((((1)))))) else ((((((1))))));", 0, -1);
+    fault("heat = if 1 < 2 then (((((((1", 2, 27);
     fault("heat = (((((((1)))))));", 2, 13);
     fault("heat = (((((((", 2, 13);
     String tokens = "seed 1;".repeat(132) + "heat=";  // 398 TOKENS
@@ -362,6 +366,9 @@ public final class PromisesTest {
     due("move(-1)", x.move(-1, 1), false);
     due("call", x.call(0, 0), 10);
     due("COINS", x.seat(0, 1), 90 + 2 * 6 + 10);
+    x = of("thing a 1 1; seat s 1 999; heat = 9;");
+    due("lend 999", x.lend(0, 0, 999), 0);
+    due("call 999", x.call(0, 0), 999);
     // by hand no WIND is looked at
     x = of(WINDY + "begins 1;");
     due("WIND", x.count(13), 1);
@@ -431,8 +438,62 @@ public final class PromisesTest {
     due("COINS at most", x.seat(0, 1), 99999);
     due("call beyond", x.call(0, 0), -2);
     due("RENT", x.seat(0, 6), 6 * 48 * 396);
-    x.lend(0, 0, 1);
-    due("lend twice", x.lend(0, 0, 1), -2);
+    // what is called back just fits, or is too much by one
+    x = of("thing a 1 1; thing b 1 1; seat s 1 999; heat = 9; rent = lent;");
+    x.lend(0, 0, 99);
+    x.lend(0, 1, 1);
+    for (int i = 0; i < 20; i++) x.hours(48);
+    x.hours(30);
+    // 899 and 990 hours of 100
+    due("COINS", x.seat(0, 1), 99899);
+    x.hours(1);
+    due("COINS at most, just so", x.seat(0, 1), 99999);
+    due("call beyond by 1", x.call(0, 1), -2);
+    due("undo", x.undo(), true);
+    due("call 99", x.call(0, 0), 99);
+    due("COINS", x.seat(0, 1), 99998);
+    due("call 1: 99,999 just so", x.call(0, 1), 1);
+    due("COINS", x.seat(0, 1), 99999);
+  }
+
+  /** All six by all six: the last ones count too. */
+  private static void fullHouse() {
+    StringBuilder text = new StringBuilder("heat = 30; rent = 1; interest = 10; seen = 30 - far - lent * 30;");
+    for (int i = 0; i < 6; i++) text.append("thing t").append((char) ('a' + i)).append(" ").append(3 * i).append(" 1;");
+    for (int i = 0; i < 6; i++) text.append("seat s").append((char) ('a' + i)).append(" ").append(i).append(" 60;");
+    MirageLoans x = of(text.toString());
+    for (int seat = 0; seat < 6; seat++)
+      for (int thing = 0; thing < 6; thing++) due("lend", x.lend(seat, thing, 10), 60 - 10 * (thing + 1));
+    due("count(5)", x.count(5), 36);
+    due("count(16)", x.count(16), 63);
+    due("thing(5, 2)", x.thing(5, 2), 63);
+    due("thing(5, 3)", x.thing(5, 3), 63);
+    due("seat(5, 2)", x.seat(5, 2), 63);
+    due("seat(5, 3)", x.seat(5, 3), 63);
+    due("seat(5, 4)", x.seat(5, 4), 60);
+    due("crowd(15)", x.crowd(15), 32);
+    due("clash(0)", x.clash(0), 0);
+    due("near(19, 0)", x.near(19, 0), 5);
+    due("umbrellas(1, -1)", x.umbrellas(1, -1), 6);
+    x.hours(1);
+    due("count(14)", x.count(14), 36);
+    due("seat(5, 6)", x.seat(5, 6), 6);
+    due("rich(2, 1)", x.rich(2, 1), 60 + 6 + 12);
+    due("book(5, 48)", x.book(5, 48), 60 + 6 + 48 * 6);
+    due("thing(6, 0)", x.thing(6, 0), -1);
+    due("seat(6, 0)", x.seat(6, 0), -1);
+    due("lend(6, 0)", x.lend(6, 0, 1), -1);
+    due("lend(0, 6)", x.lend(0, 6, 1), -1);
+    // a LAW of what is SEEN knows nothing of what was lent, though INTEREST was asked for just ahead of it
+    x = of("thing a 0 1; thing b 5 1; seat s 5 20; seat u 5 20; heat = 1 + 9 / (day + 1) * (1 - day); interest = 10; seen = warm - far - lent * 50;");
+    x.lend(0, 0, 10);
+    x.lend(0, 1, 10);
+    x.hours(24);
+    due("RENT", x.seat(0, 6), 48);
+    x.hours(1);
+    due("more by INTEREST", x.loan(0, 0, 0), 11);
+    due("unseen", x.loan(0, 1, 1), 0);
+    due("RENT", x.seat(0, 6), 49);
   }
 
   private static void undone() {
@@ -768,6 +829,12 @@ public final class PromisesTest {
     due("look(4, 25)", x.look(4, 25), -1);
     due("look(4, -1)", x.look(4, -1), -1);
     due("look(1, 24)", x.look(1, 24), 5);
+    // with TALL 1 it is SEEN at its X, if that is 0; taller ones are SEEN 9 further on
+    MirageLoans y = of("heat = 99; moved = if tall < 2 then 0 else 9; seen = if across < 1 then 1 else tall - 1;");
+    y.tell(0, 0, 0);
+    due("stands(1)", y.stands(1), 1);
+    due("sure(1, 0)", y.sure(1, 0), 0);
+    due("sure(1, 1)", y.sure(1, 1), 1);
     for (int i = 4; i < 20; i++) due("tell " + i, x.tell(1, 1, 0), i);
     due("tell a 21st", x.tell(1, 1, 0), -1);
     due("count(11)", x.count(11), 20);
