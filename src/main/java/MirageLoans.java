@@ -195,7 +195,6 @@ public final class MirageLoans {
         past.push(now);
         now.coins[seat] -= n;
         now.lent[which] = n;
-        now.unseen[which] = 0;
         return now.coins[seat];
     }
 
@@ -448,10 +447,9 @@ public final class MirageLoans {
         }
         int which = loanOf(seat, thing);
         ahead.copy(now);
-        ahead.keepOnly(which);
+        ahead.keepOnly(NONE);
         ahead.rent[seat] = 0;
         ahead.lent[which] = n;
-        ahead.unseen[which] = 0;
         flat.pass(ahead, m, 0, 0);
         boolean isBack = flat.isSeenFrom(ahead.x[seat], thing, ahead.hour, flat.heat(ahead.hour));
         return ahead.rent[seat] + (isBack ? ahead.lent[which] : 0) - n;

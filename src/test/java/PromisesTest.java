@@ -366,9 +366,15 @@ public final class PromisesTest {
     due("move(-1)", x.move(-1, 1), false);
     due("call", x.call(0, 0), 10);
     due("COINS", x.seat(0, 1), 90 + 2 * 6 + 10);
-    x = of("thing a 1 1; seat s 1 999; heat = 9;");
+    x = of("thing a 1 1; seat s 1 999; heat = 9; winds 100; grace 9;");
     due("lend 999", x.lend(0, 0, 999), 0);
+    x.hours(3);
     due("call 999", x.call(0, 0), 999);
+    due("lend again", x.lend(0, 0, 9), 990);
+    due("unseen anew", x.loan(0, 0, 1), 0);
+    x.hours(9);
+    due("lend again, once it is GONE", x.lend(0, 0, 9), 981);
+    due("unseen anew", x.loan(0, 0, 1), 0);
     // by hand no WIND is looked at
     x = of(WINDY + "begins 1;");
     due("WIND", x.count(13), 1);
@@ -732,6 +738,14 @@ public final class PromisesTest {
     // two hours unseen, then SEEN: what is lent is more by then
     due("worth 2", x.worth(1, 0, 50, 2), 60 - 50);
     due("worth 3", x.worth(1, 0, 50, 3), 11 + 60 - 50);
+    x = of(NOON);
+    x.hours(11);
+    x.move(0, 9);
+    x.lend(0, 0, 10);
+    x.move(0, 2);
+    x.hours(2);
+    due("unseen", x.loan(0, 0, 1), 2);
+    due("worth with a loan that is nearly GONE", x.worth(0, 0, 50, 1), 55 - 50);
     due("worth, no WINDS", of(WINDY + "grace 1;").worth(0, 0, 10, 48), 48);
   }
 
