@@ -1469,14 +1469,18 @@ public final class MirageLoans {
             for (int i = 0; i < k && i < size; i++) {
                 int warm = flat.heat(hour[i]);
                 for (int stand = 0; stand < STANDS; stand++) {
-                    flat.laws.aim(hour[i], warm, x[i], xOf(stand), tallOf(stand));
-                    if (isLeft[stand] && flat.laws.spot() != at[i]) {
+                    if (isLeft[stand] && !isSo(flat, i, stand, warm)) {
                         isLeft[stand] = false;
                         left--;
                     }
                 }
             }
             return left;
+        }
+
+        private boolean isSo(Flat flat, int i, int stand, int warm) {
+            flat.laws.aim(hour[i], warm, x[i], xOf(stand), tallOf(stand));
+            return flat.laws.spot() == at[i];
         }
 
         int sureX() {
