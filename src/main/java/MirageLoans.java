@@ -554,7 +554,7 @@ public final class MirageLoans {
             return NONE;
         }
         told.sift(flat, k);
-        return what == 0 ? told.sureX() : told.sureTall();
+        return told.common(what == 0);
     }
 
     public int look(int k, int n) {
@@ -1483,28 +1483,15 @@ public final class MirageLoans {
             return flat.laws.spot() == at[i];
         }
 
-        int sureX() {
+        /** The X, or else the TALL, that all which are left have in common. */
+        int common(boolean ofX) {
             int only = NOT;
             for (int stand = 0; stand < STANDS; stand++) {
-                if (isLeft[stand]) {
-                    if (only != NOT && only != xOf(stand)) {
-                        return NOT;
-                    }
-                    only = xOf(stand);
+                int one = ofX ? xOf(stand) : tallOf(stand);
+                if (isLeft[stand] && only != NOT && only != one) {
+                    return NOT;
                 }
-            }
-            return only;
-        }
-
-        int sureTall() {
-            int only = NOT;
-            for (int stand = 0; stand < STANDS; stand++) {
-                if (isLeft[stand]) {
-                    if (only != NOT && only != tallOf(stand)) {
-                        return NOT;
-                    }
-                    only = tallOf(stand);
-                }
+                only = isLeft[stand] ? one : only;
             }
             return only;
         }
