@@ -171,7 +171,8 @@ public final class MirageLoans {
 
     public int tells(int what, int x, int thing, int n) {
         boolean isOfThing = what == 1 || what == 2;
-        if (n < 0 || n > MOST_BY_HAND || isOfThing && !(isX(x) && isThing(thing))) {
+        boolean isOfLent = what == 2 || what == 3;
+        if (isOfThing && !(isX(x) && isThing(thing)) || isOfLent && (n < 0 || n > MOST_BY_HAND)) {
             return NO_LAW;
         }
         int warm = flat.heat(now.hour);

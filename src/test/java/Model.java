@@ -294,11 +294,12 @@ public final class Model {
     return w.loans.containsKey(10 * s + t) ? w.loans.get(10 * s + t)[what] : -2;
   }
   public int tells(int what, int x, int t, int n) {
-    if (!in(0, what, 3) || !in(0, n, 999)) return -100;
+    if (!in(0, what, 3)) return -100;
     if (what == 0) return heat(w.hour);
-    if (what == 3) return interest(w.hour, n);
+    if (what == 3) return in(0, n, 999) ? interest(w.hour, n) : -100;
     if (!okX(x) || !okT(t)) return -100;
-    return what == 1 ? moved(w.hour, x, thingAt(t)) : rent(w.hour, x, thingAt(t), n);
+    if (what == 1) return moved(w.hour, x, thingAt(t));
+    return in(0, n, 999) ? rent(w.hour, x, thingAt(t), n) : -100;
   }
   void done() {
     past.add(w.twin());

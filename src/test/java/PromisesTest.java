@@ -331,7 +331,15 @@ public final class PromisesTest {
     due("tells(2, -1)", x.tells(2, -1, 0, 0), -100);
     due("tells(2, n 1000)", x.tells(2, 0, 0, 1000), -100);
     due("tells(2, n 999)", x.tells(2, 0, 0, 999), 99);
+    due("tells(2, n -1)", x.tells(2, 0, 0, -1), -100);
     due("tells(3, n -1)", x.tells(3, 0, 0, -1), -100);
+    due("tells(3, n 1000)", x.tells(3, 0, 0, 1000), -100);
+    for (int free : new int[] {-1, 999, 1000, Integer.MAX_VALUE, Integer.MIN_VALUE}) {
+      due("tells(0), n not looked at", x.tells(0, 0, 0, free), 3);
+      due("tells(1), n not looked at", x.tells(1, 0, 0, free), 3);
+      due("tells(1), n not looked at, bad X", x.tells(1, 20, 0, free), -100);
+      due("tells(4), n not looked at", x.tells(4, 0, 0, free), -100);
+    }
     due("tells(0, -5, 77, 0)", x.tells(0, -5, 77, 0), 3);
     due("tells(3, -5, 77, 0)", x.tells(3, -5, 77, 0), 10);
   }
