@@ -89,11 +89,14 @@ public final class ForesightBoundsTest {
   private static void noWinds() {
     Run x = Run.of(PAIR + "winds 100; grace 2;").done("lend", 0, 0, 9);
     x.due(9, "sight", 9, 0, 0).due(9, "sight", 9, 0, 1).due(48, "longFrom", 9, 0, 48).due(48, "best", 0, 48, 1).due(0, "dawns", 9, 0);
-    x.due(0, "near", 9, 0).due(1, "crowd", 9).due(1, "umbrellas", 1, -1).due(4 * 48, "worth", 0, 0, 9, 48).due(-2, "hidden", 9, 9, 1).due(-2, "cool");
+    x.due(0, "near", 9, 0).due(1, "crowd", 9).due(1, "umbrellas", 1, -1).due(4 * 48, "worth", 0, 0, 9, 48).due(-2, "hidden", 9, 9, 1)
+        .due(-2, "cool");
     // in HOURS they count: nothing is got, and it is GONE behind two
-    x.due(99, "book", 0, 1).due(90, "book", 0, 2).due(99, "rich", 1, 1).due(90, "rich", 2, 1).due(9, "lentIn", 0, 0, 1).due(-2, "lentIn", 0, 0, 2);
+    x.due(99, "book", 0, 1).due(90, "book", 0, 2).due(99, "rich", 1, 1).due(90, "rich", 2, 1).due(9, "lentIn", 0, 0, 1)
+        .due(-2, "lentIn", 0, 0, 2);
     x.due(20, "year", 0, 0, 1, 20).due(0, "year", 0, 0, 2, 20);
-    Run y = Run.of(PAIR + "thing b 9 1; seat u 9 9; winds 100;").done("lend", 0, 0, 9).done("lend", 1, 1, 9).due(1, "clash", 0).due(1, "clash", 1);
+    Run y = Run.of(PAIR + "thing b 9 1; seat u 9 9; winds 100;").done("lend", 0, 0, 9).done("lend", 1, 1, 9).due(1, "clash", 0)
+        .due(1, "clash", 1);
     y.due(1, "count", 13);
   }
 
@@ -101,10 +104,13 @@ public final class ForesightBoundsTest {
 
   private static void sightHours() {
     // SEEN from the third day on
-    Run x = Run.of("thing a 9 4; seen = day - 1; moved = hour;").due(-2, "sight", 0, 0, 0).due(-2, "sight", 0, 0, 47).due(9, "sight", 0, 0, 48);
+    Run x = Run.of("thing a 9 4; seen = day - 1; moved = hour;").due(-2, "sight", 0, 0, 0).due(-2, "sight", 0, 0, 47)
+        .due(9, "sight", 0, 0, 48);
     x.done("hours", 1).due(-2, "sight", 0, 0, 46).due(9, "sight", 0, 0, 47).due(10, "sight", 0, 0, 48);
-    x.done("hours", 47).due(9, "sight", 0, 0, 0).due(10, "sight", 0, 0, 1).due(9, "sight", 0, 0, 48).due(9, "sight", 0, 0, 24).due(18, "sight", 0, 0, 23);
-    Run y = Run.of(Run.NOON).due(13, "sight", 2, 0, 0).due(13, "sight", 2, 0, 1).due(-2, "sight", 2, 0, 2).due(-2, "sight", 2, 0, 13).due(13, "sight", 2, 0, 14);
+    x.done("hours", 47).due(9, "sight", 0, 0, 0).due(10, "sight", 0, 0, 1).due(9, "sight", 0, 0, 48).due(9, "sight", 0, 0, 24)
+        .due(18, "sight", 0, 0, 23);
+    Run y = Run.of(Run.NOON).due(13, "sight", 2, 0, 0).due(13, "sight", 2, 0, 1).due(-2, "sight", 2, 0, 2).due(-2, "sight", 2, 0, 13)
+        .due(13, "sight", 2, 0, 14);
     y.due(13, "sight", 2, 0, 48);
   }
 
@@ -120,16 +126,26 @@ public final class ForesightBoundsTest {
   private static void clashes() {
     Run x = Run.of(SIX_THINGS + SIX_SEATS + "seen = 1;").due(0, "clash", 0).due(-2, "clash", 1);
     // one SEAT's own loans are no pair, nor are loans on one and the same THING
-    x.done("lend", 5, 0, 1).done("lend", 5, 1, 1).due(0, "clash", 0).done("call", 5, 1).done("lend", 4, 0, 1).due(0, "clash", 0).due(-2, "clash", 1);
+    x.done("lend", 5, 0, 1).done("lend", 5, 1, 1).due(0, "clash", 0).done("call", 5, 1).done("lend", 4, 0, 1).due(0, "clash", 0)
+        .due(-2, "clash", 1);
     x.done("lend", 4, 5, 1).due(1, "clash", 0).due(45, "clash", 1).done("lend", 5, 5, 1).due(1, "clash", 0).due(45, "clash", 1);
     x.done("lend", 1, 3, 1).due(3, "clash", 0).due(14, "clash", 1).done("lend", 0, 3, 1).due(5, "clash", 0).due(4, "clash", 1);
-    x.done("lend", 2, 2, 1).done("lend", 3, 1, 1).due(14, "clash", 0).due(2, "clash", 1).done("lend", 1, 1, 1).due(15, "clash", 0).due(1, "clash", 1);
+    x.done("lend", 2, 2, 1).done("lend", 3, 1, 1).due(14, "clash", 0).due(2, "clash", 1).done("lend", 1, 1, 1).due(15, "clash", 0)
+        .due(1, "clash", 1);
     // at one and the same X, and SEEN now: MOVED brings them together; where X is held to 19 they meet, too
     Run z = Run.of("thing a 9 1; thing b 10 2; seat s 1 9; seat u 1 9; seen = if hour < 3 then 1 else 0; moved = if hour < 1 then 0 else 2 - tall;");
-    z.done("lend", 0, 0, 1).done("lend", 1, 1, 1).due(0, "clash", 0).done("hours", 1).due(1, "clash", 0).done("hours", 1).due(1, "clash", 0);
+    z.done("lend", 0, 0, 1).done("lend", 1, 1, 1).due(0, "clash", 0).done("hours", 1).due(1, "clash", 0).done("hours", 1)
+        .due(1, "clash", 0);
     z.done("hours", 1).due(0, "clash", 0).due(-2, "clash", 1);
     Run held = Run.of("thing a 16 1; thing b 18 2; thing c 9 1; seat s 1 9; seat u 1 9; seen = 1; moved = 4;");
-    held.done("lend", 0, 0, 1).done("lend", 1, 1, 1).due(1, "clash", 0).done("move", 1, 17).due(1, "clash", 0).done("move", 1, 19).due(0, "clash", 0);
+    held.done("lend", 0, 0, 1).done("lend", 1, 1, 1).due(1, "clash", 0).done("move", 1, 17).due(1, "clash", 0).done("move", 1, 19)
+        .due(0, "clash", 0);
+    // one SEAT alone, by the first and by the last of the THINGS; then its neighbour, on the same one
+    for (int thing : new int[] {0, 5}) {
+      Run one = Run.of(SIX_THINGS + SIX_SEATS + "seen = 1;");
+      for (int seat : new int[] {0, 5, 1, 4}) one.done("lend", seat, thing, 1).due(0, "clash", 0).due(-2, "clash", 1);
+      one.done("lend", 2, 5 - thing, 1).due(4, "clash", 0).due(2, "clash", 1);
+    }
     // what is not lent on does not count
     Run w = Run.of(SIX_THINGS + SIX_SEATS + "seen = 1;").done("lend", 0, 0, 1).due(0, "clash", 0);
     w.done("lend", 1, 1, 1).due(1, "clash", 0).done("call", 0, 0).due(0, "clash", 0).due(-2, "clash", 1);
@@ -145,7 +161,8 @@ public final class ForesightBoundsTest {
 
   private static void longHours() {
     // at 10 and 11, from 24 to 35, from 48 to 59: this hour is the first of the next ones
-    Run x = Run.of(Run.NOON).due(1, "longFrom", 2, 0, 1).due(2, "longFrom", 2, 0, 2).due(2, "longFrom", 2, 0, 3).due(2, "longFrom", 2, 0, 14);
+    Run x = Run.of(Run.NOON).due(1, "longFrom", 2, 0, 1).due(2, "longFrom", 2, 0, 2).due(2, "longFrom", 2, 0, 3)
+        .due(2, "longFrom", 2, 0, 14);
     x.due(3, "longFrom", 2, 0, 15).due(23, "longFrom", 2, 0, 47).due(24, "longFrom", 2, 0, 48);
     x.done("hours", 2).due(0, "longFrom", 2, 0, 1).due(0, "longFrom", 2, 0, 12).due(1, "longFrom", 2, 0, 13).due(12, "longFrom", 2, 0, 36);
     Run.of("thing a 9 4; seen = 1;").due(48, "longFrom", 0, 0, 48).due(1, "longFrom", 0, 0, 1);
@@ -160,13 +177,17 @@ public final class ForesightBoundsTest {
   }
 
   private static void bestX() {
-    Run.of("thing a 9 4; seen = 1 - at;").due(0, "best", 0, 48, 0).due(48, "best", 0, 48, 1);
-    Run.of("thing a 9 4; seen = at - 18;").due(19, "best", 0, 48, 0).due(48, "best", 0, 48, 1).due(19, "best", 0, 1, 0).due(1, "best", 0, 1, 1);
+    for (int x = 0; x < 20; x++)
+      Run.of("thing a 9 4; seen = 1 - (at - " + x + ") * (at - " + x + ");").due(x, "best", 0, 48, 0).due(48, "best", 0, 48, 1)
+          .due(x, "best", 0, 1, 0).due(1, "best", 0, 1, 1);
+    // from 20, where nobody is, it would be SEEN
+    Run.of("thing a 9 4; seen = at - 19;").due(0, "best", 0, 48, 0).due(0, "best", 0, 48, 1);
     Run.of("thing a 9 4; seen = 1;").due(0, "best", 0, 48, 0).due(48, "best", 0, 48, 1);
     Run.of("thing a 9 4; seen = 0;").due(0, "best", 0, 48, 0).due(0, "best", 0, 48, 1);
     // 5 away it is SEEN from 4 and from 14: the first; and from 14 one hour more: that one
     Run.of("thing a 9 4; seen = 1 - (far - 5) * (far - 5);").due(4, "best", 0, 9, 0).due(9, "best", 0, 9, 1);
-    Run.of("thing a 9 4; seen = if hour < 8 then 1 - (far - 5) * (far - 5) else 1 - (at - 14) * (at - 14);").due(4, "best", 0, 8, 0).due(8, "best", 0, 8, 1)
+    Run.of("thing a 9 4; seen = if hour < 8 then 1 - (far - 5) * (far - 5) else 1 - (at - 14) * (at - 14);").due(4, "best", 0, 8, 0)
+        .due(8, "best", 0, 8, 1)
         .due(14, "best", 0, 9, 0).due(9, "best", 0, 9, 1);
   }
 
@@ -179,10 +200,12 @@ public final class ForesightBoundsTest {
   }
 
   private static void dawnsHours() {
-    Run x = Run.of("thing a 9 4; seen = day - 1;").due(48, "dawns", 0, 0).done("hours", 1).due(47, "dawns", 0, 0).done("hours", 46).due(1, "dawns", 0, 0);
+    Run x = Run.of("thing a 9 4; seen = day - 1;").due(48, "dawns", 0, 0).done("hours", 1).due(47, "dawns", 0, 0).done("hours", 46)
+        .due(1, "dawns", 0, 0);
     x.done("hours", 1).due(0, "dawns", 0, 0).done("hours", 1).due(0, "dawns", 0, 0);
     // at 72, and at 71 if it begins at 23
-    Run y = Run.of("thing a 9 4; seen = day - 2; begins 23;").due(-2, "dawns", 0, 0).done("hours", 1).due(48, "dawns", 0, 0).due(1, "undo").due(-2, "dawns", 0, 0);
+    Run y = Run.of("thing a 9 4; seen = day - 2; begins 23;").due(-2, "dawns", 0, 0).done("hours", 1).due(48, "dawns", 0, 0).due(1, "undo")
+        .due(-2, "dawns", 0, 0);
     y.due(-2, "sight", 0, 0, 48);
   }
 
@@ -199,7 +222,8 @@ public final class ForesightBoundsTest {
     // where it is SEEN counts, not where it stands
     Run.of("thing a 9 1; thing b 12 2; seen = 1; moved = 6 - 4 * tall;").due(1, "near", 8, 0).due(2, "near", 8, 1);
     // of alike ones the first, to which side ever
-    Run x = Run.of("thing a 12 1; thing b 8 1; thing c 12 1; seen = 1;").due(0, "near", 10, 0).due(2, "near", 10, 1).due(1, "near", 9, 0).due(1, "near", 9, 1);
+    Run x = Run.of("thing a 12 1; thing b 8 1; thing c 12 1; seen = 1;").due(0, "near", 10, 0).due(2, "near", 10, 1).due(1, "near", 9, 0)
+        .due(1, "near", 9, 1);
     x.due(0, "near", 11, 0).due(1, "near", 11, 1).due(0, "near", 12, 0).due(0, "near", 12, 1);
     // as far away as can be
     Run.of("thing a 19 1; seen = 1;").due(0, "near", 0, 0).due(19, "near", 0, 1).due(0, "near", 19, 1);
@@ -219,7 +243,8 @@ public final class ForesightBoundsTest {
     Run x = Run.of(SIX_THINGS + SIX_SEATS + "seen = 1;");
     for (int at = 0; at < 20; at++) x.due(at == 5 ? 63 : 0, "crowd", at);
     // where X is held to the flat's ends
-    Run y = Run.of("thing a 17 1; thing b 18 1; thing c 1 1; seat s 9 1; seen = 1; moved = 2;").due(3, "crowd", 19).due(0, "crowd", 18).due(4, "crowd", 0).due(0, "crowd", 1);
+    Run y = Run.of("thing a 17 1; thing b 18 1; thing c 1 1; seat s 9 1; seen = 1; moved = 2;").due(3, "crowd", 19).due(0, "crowd", 18)
+        .due(4, "crowd", 0).due(0, "crowd", 1);
     // a THING can be SEEN at two X by two SEATS
     Run.of("thing a 9 1; seat s 1 1; seat u 15 1; seen = 1; moved = 2;").due(1, "crowd", 11).due(1, "crowd", 7).due(0, "crowd", 9);
     Run.of("thing a 9 1; seat s 1 1; seen = 0;").due(0, "crowd", 9);
@@ -297,7 +322,8 @@ public final class ForesightBoundsTest {
   private static void worthHours() {
     // unseen till the third day
     Run late = Run.of("thing a 9 4; seat s 9 1; seen = day - 1; grace 99; interest = 99;");
-    late.due(-999, "worth", 0, 0, 999, 47).due(99999 - 999, "worth", 0, 0, 999, 48).due(-1, "worth", 0, 0, 1, 47).due(0, "worth", 0, 0, 1, 48);
+    late.due(-999, "worth", 0, 0, 999, 47).due(99999 - 999, "worth", 0, 0, 999, 48).due(-1, "worth", 0, 0, 1, 47)
+        .due(0, "worth", 0, 0, 1, 48);
     Run most = Run.of("thing a 9 4; seat s 9 1; seen = 1; rent = 99;");
     most.due(99, "worth", 0, 0, 1, 1).due(99, "worth", 0, 0, 999, 1).due(48 * 99, "worth", 0, 0, 999, 48);
   }
@@ -306,9 +332,11 @@ public final class ForesightBoundsTest {
     // SEEN at 0, not at 1 and 2, and from 3 on
     String gap = "thing a 9 4; seat s 9 1; seen = if hour < 1 then 1 else if hour < 3 then 0 else 1; interest = 10; rent = 7;";
     Run back = Run.of(gap + "grace 3;");
-    back.due(7 - 100, "worth", 0, 0, 100, 1).due(7 - 100, "worth", 0, 0, 100, 2).due(7 + 121 - 100, "worth", 0, 0, 100, 3).due(14 + 121 - 100, "worth", 0, 0, 100, 4);
+    back.due(7 - 100, "worth", 0, 0, 100, 1).due(7 - 100, "worth", 0, 0, 100, 2).due(7 + 121 - 100, "worth", 0, 0, 100, 3)
+        .due(14 + 121 - 100, "worth", 0, 0, 100, 4);
     Run gone = Run.of(gap + "grace 2;");
-    gone.due(7 - 100, "worth", 0, 0, 100, 2).due(7 - 100, "worth", 0, 0, 100, 3).due(7 - 100, "worth", 0, 0, 100, 4).due(7 - 100, "worth", 0, 0, 100, 21);
+    gone.due(7 - 100, "worth", 0, 0, 100, 2).due(7 - 100, "worth", 0, 0, 100, 3).due(7 - 100, "worth", 0, 0, 100, 4)
+        .due(7 - 100, "worth", 0, 0, 100, 21);
     // by the hour behind them: SEEN in HOUR 0, not at 1
     Run.of("thing a 9 4; seat s 9 1; seen = 1 - hour;").due(4 - 9, "worth", 0, 0, 9, 1);
     Run.of("thing a 9 4; seat s 9 1; seen = hour; begins 0;").due(0, "worth", 0, 0, 9, 1).due(4, "worth", 0, 0, 9, 2);
@@ -328,12 +356,14 @@ public final class ForesightBoundsTest {
     for (int i = 0; i < 21; i++) full.done("hours", 48);
     full.due(99999, "seat", 0, 1).due(990, "worth", 0, 0, 99, 10).due(10, "worth", 0, 1, 1, 10).due(99 * 48, "worth", 0, 0, 999, 48);
     // a loan that it has: neither what is lent, nor how long it is unseen, nor the others' RENT
-    Run x = Run.of("thing a 9 4; thing b 9 4; seat s 9 99; heat = 5; winds 100; grace 3;").done("lend", 0, 0, 9).done("lend", 0, 1, 9).done("hours", 2);
+    Run x = Run.of("thing a 9 4; thing b 9 4; seat s 9 99; heat = 5; winds 100; grace 3;").done("lend", 0, 0, 9).done("lend", 0, 1, 9)
+        .done("hours", 2);
     x.due(2, "loan", 0, 0, 1).due(4, "worth", 0, 0, 50, 1).due(12, "worth", 0, 0, 50, 3);
   }
 
   private static void bookHours() {
-    Run x = Run.busy().due(106, "book", 0, 0).due(53, "book", 1, 0).due(112, "book", 0, 1).due(102 + 12, "book", 0, 3).due(102, "book", 0, 4).due(102, "book", 0, 48);
+    Run x = Run.busy().due(106, "book", 0, 0).due(53, "book", 1, 0).due(112, "book", 0, 1).due(102 + 12, "book", 0, 3)
+        .due(102, "book", 0, 4).due(102, "book", 0, 48);
     x.done("hours", 48).due(102, "book", 0, 0);
     Run y = Run.of(PAIR + "winds 100; grace 99; interest = 10;").done("lend", 0, 0, 10).due(99, "book", 0, 0).due(100, "book", 0, 1);
     int lent = 10;
@@ -352,7 +382,8 @@ public final class ForesightBoundsTest {
     Run.bounds(Run::busy, -1, "lentIn", new int[] {0, 0, 0}, 0, 0, 1);
     Run.bounds(Run::busy, -1, "lentIn", new int[] {0, 0, 0}, 1, 0, 1);
     Run.bounds(Run::busy, -1, "lentIn", new int[] {0, 0, 0}, 2, 0, 48);
-    Run.busy().due(10, "lentIn", 0, 0, 0).due(10, "lentIn", 0, 0, 1).due(11, "lentIn", 0, 0, 2).due(12, "lentIn", 0, 0, 3).due(-2, "lentIn", 0, 0, 4)
+    Run.busy().due(10, "lentIn", 0, 0, 0).due(10, "lentIn", 0, 0, 1).due(11, "lentIn", 0, 0, 2).due(12, "lentIn", 0, 0, 3)
+        .due(-2, "lentIn", 0, 0, 4)
         .due(-2, "lentIn", 0, 0, 48).due(-2, "lentIn", 0, 1, 0).due(-2, "lentIn", 0, 1, 48).due(24, "lentIn", 1, 1, 3);
     new Run().due(-1, "lentIn", 0, 0, 0);
   }
@@ -380,8 +411,10 @@ public final class ForesightBoundsTest {
     }
     Run still = Run.of(PAIR + "grace 1;").done("lend", 0, 0, 9).due(20, "year", 0, 0, 48, 20).due(1, "year", 0, 0, 48, 1);
     still.done("move", 0, 0).due(20, "year", 0, 0, 0, 20).due(0, "year", 0, 0, 1, 20);
+    Run.of(PAIR + "winds 100; grace 2;").done("lend", 0, 0, 1).due(20, "year", 0, 0, 1, 20).due(0, "year", 0, 0, 2, 20);
     // for how many hours it is unseen now counts
-    Run x = Run.of(PAIR + "winds 100; grace 3;").done("lend", 0, 0, 9).done("hours", 2).due(20, "year", 0, 0, 0, 20).due(0, "year", 0, 0, 1, 20);
+    Run x = Run.of(PAIR + "winds 100; grace 3;").done("lend", 0, 0, 9).done("hours", 2).due(20, "year", 0, 0, 0, 20)
+        .due(0, "year", 0, 0, 1, 20);
     x.due(1, "undo").due(20, "year", 0, 0, 2, 20).due(0, "year", 0, 0, 3, 20);
   }
 
@@ -390,33 +423,51 @@ public final class ForesightBoundsTest {
     Run.bounds(Run::busy, -1, "year", new int[] {0, 0, 5, 5}, 1, 0, 1);
     Run.bounds(Run::busy, -1, "year", new int[] {0, 0, 5, 5}, 2, 0, 48);
     Run.bounds(Run::busy, -1, "year", new int[] {0, 0, 5, 5}, 3, 1, 20);
-    Run.busy().due(0, "year", 0, 1, 0, 20).due(0, "year", 0, 1, 48, 1).due(20, "year", 0, 0, 0, 20).due(5, "year", 0, 0, 3, 5).due(0, "year", 0, 0, 4, 5);
+    Run.busy().due(0, "year", 0, 1, 0, 20).due(0, "year", 0, 1, 48, 1).due(20, "year", 0, 0, 0, 20).due(5, "year", 0, 0, 3, 5)
+        .due(0, "year", 0, 0, 4, 5);
     new Run().due(-1, "year", 0, 0, 0, 1);
   }
 
   // ---- ways, and how warm it is
 
   private static void fewestHours() {
-    for (int to = 0; to < 20; to++) new Run().due(to, "hidden", 0, to, 1).due(19 - to, "hidden", 19, to, 9).due(Math.abs(9 - to), "hidden", 9, to, 5);
+    for (int to = 0; to < 20; to++) new Run().due(to, "hidden", 0, to, 1).due(19 - to, "hidden", 19, to, 9)
+        .due(Math.abs(9 - to), "hidden", 9, to, 5);
     // X 4 and more is SEEN till 48 hours are gone: one hour's way is waited for, a second one is too much
-    Run x = Run.of("seat s 0 1; seen = if day < 2 then across - 3 else 0;").due(48, "hidden", 3, 4, 1).due(48, "hidden", 0, 4, 1).due(-2, "hidden", 3, 5, 1);
-    x.done("hours", 1).due(47, "hidden", 3, 4, 1).due(48, "hidden", 3, 5, 1).due(-2, "hidden", 3, 6, 1).done("hours", 47).due(1, "hidden", 3, 4, 1);
+    Run x = Run.of("seat s 0 1; seen = if day < 2 then across - 3 else 0;").due(48, "hidden", 3, 4, 1).due(48, "hidden", 0, 4, 1)
+        .due(-2, "hidden", 3, 5, 1);
+    x.done("hours", 1).due(47, "hidden", 3, 4, 1).due(48, "hidden", 3, 5, 1).due(-2, "hidden", 3, 6, 1).done("hours", 47)
+        .due(1, "hidden", 3, 4, 1);
     x.due(16, "hidden", 3, 19, 1);
     // a wall that is always SEEN, which there is no way around
-    Run wall = Run.of("seat s 0 1; seen = 1 - (across - 9) * (across - 9);").due(8, "hidden", 0, 8, 1).due(-2, "hidden", 0, 10, 1).due(-2, "hidden", 10, 8, 1);
+    Run wall = Run.of("seat s 0 1; seen = 1 - (across - 9) * (across - 9);").due(8, "hidden", 0, 8, 1).due(-2, "hidden", 0, 10, 1)
+        .due(-2, "hidden", 10, 8, 1);
     wall.due(9, "hidden", 10, 19, 1).due(-2, "hidden", 19, 0, 1).due(-2, "hidden", 8, 9, 1);
+    // an hour in which all is SEEN: at the flat's ends there is nowhere else to go either
+    Run all = Run.of("seat s 9 1; seen = if hour < 1 then 0 else 2 - hour;").due(0, "hidden", 19, 19, 1).due(-2, "hidden", 19, 18, 1)
+        .due(-2, "hidden", 18, 19, 1);
+    all.due(0, "hidden", 0, 0, 1).due(-2, "hidden", 0, 1, 1).due(-2, "hidden", 1, 0, 1).done("hours", 2).due(1, "hidden", 19, 18, 1)
+        .due(19, "hidden", 0, 19, 1);
   }
 
   private static void neverSeen() {
     // at the start, also where there is no way to go; behind the last hour
-    Run day = Run.of("seat s 9 1; heat = if hour < 2 then 0 else 3;").due(0, "hidden", 9, 9, 1).due(1, "hidden", 9, 10, 1).due(-2, "hidden", 9, 11, 1);
+    Run day = Run.of("seat s 9 1; heat = if hour < 2 then 0 else 3;").due(0, "hidden", 9, 9, 1).due(1, "hidden", 9, 10, 1)
+        .due(-2, "hidden", 9, 11, 1);
     day.due(1, "hidden", 8, 9, 1).due(-2, "hidden", 7, 9, 1).due(2, "hidden", 10, 12, 1).due(-2, "hidden", 9, 12, 1);
     day.done("hours", 1).due(0, "hidden", 9, 9, 1).due(-2, "hidden", 9, 10, 1).due(1, "hidden", 11, 12, 1).due(-2, "hidden", 10, 12, 1);
     day.done("hours", 1).due(-2, "hidden", 9, 9, 1).due(-2, "hidden", 11, 11, 1).due(-2, "hidden", 11, 12, 1).due(0, "hidden", 12, 12, 1);
     day.due(22, "hidden", 12, 11, 1).due(23, "hidden", 12, 10, 1).due(-2, "hidden", 12, 9, 1);
+    for (int x = 0; x < 20; x++) {
+      Run one = Run.of("seat s 9 1; seen = 1 - (across - " + x + ") * (across - " + x + ");").due(-2, "hidden", x, x, 1);
+      if (x > 0) one.due(0, "hidden", x - 1, x - 1, 1).due(-2, "hidden", x - 1, x, 1);
+      if (x < 19) one.due(0, "hidden", x + 1, x + 1, 1).due(-2, "hidden", x + 1, x, 1);
+    }
     // by its TALL, and by any of the SEATS
-    Run tall = Run.of("seat s 9 1; seat u 0 1; seen = if at < 1 then 0 else tall - 4;").due(19, "hidden", 0, 19, 4).due(-2, "hidden", 0, 19, 5);
-    tall.done("move", 0, 0).due(19, "hidden", 0, 19, 5).due(19, "hidden", 0, 19, 9).done("move", 1, 1).due(-2, "hidden", 0, 19, 5).due(19, "hidden", 0, 19, 4);
+    Run tall = Run.of("seat s 9 1; seat u 0 1; seen = if at < 1 then 0 else tall - 4;").due(19, "hidden", 0, 19, 4)
+        .due(-2, "hidden", 0, 19, 5);
+    tall.done("move", 0, 0).due(19, "hidden", 0, 19, 5).due(19, "hidden", 0, 19, 9).done("move", 1, 1).due(-2, "hidden", 0, 19, 5)
+        .due(19, "hidden", 0, 19, 4);
     // the THINGS that stand there are nothing to it
     Run.of("thing a 5 9; seat s 9 1; seen = tall - 4;").due(19, "hidden", 0, 19, 4);
     // far, across, side and at are of where it is
@@ -431,11 +482,13 @@ public final class ForesightBoundsTest {
   }
 
   private static void coolHours() {
-    Run x = Run.of(PAIR + "seen = 2 - day;").due(48, "cool").done("hours", 1).due(47, "cool").done("hours", 46).due(1, "cool").done("hours", 1).due(0, "cool");
+    Run x = Run.of(PAIR + "seen = 2 - day;").due(48, "cool").done("hours", 1).due(47, "cool").done("hours", 46).due(1, "cool")
+        .done("hours", 1).due(0, "cool");
     x.done("hours", 1).due(0, "cool");
     Run.of(PAIR + "seen = 3 - day; begins 23;").due(-2, "cool").done("hours", 1).due(48, "cool").due(1, "undo").due(-2, "cool");
     // by any SEAT, of any THING
-    Run y = Run.of("thing a 0 1; thing b 19 1; seat s 9 1; seat u 10 1; heat = if hour < 5 then 12 else if hour < 7 then 10 else 9;").due(7, "cool");
+    Run y = Run.of("thing a 0 1; thing b 19 1; seat s 9 1; seat u 10 1; heat = if hour < 5 then 12 else if hour < 7 then 10 else 9;")
+        .due(7, "cool");
     y.done("move", 0, 10).due(7, "cool").done("move", 0, 9).done("move", 1, 9).due(7, "cool").done("hours", 6).due(1, "cool");
   }
 
@@ -448,7 +501,8 @@ public final class ForesightBoundsTest {
   }
 
   private static void heatAnswers() {
-    Run x = Run.of("heat = hour + day * 30; begins 23;").due(23, "heatIn", 0).due(30, "heatIn", 1).due(53, "heatIn", 24).due(60, "heatIn", 25).due(82, "heatIn", 47);
+    Run x = Run.of("heat = hour + day * 30; begins 23;").due(23, "heatIn", 0).due(30, "heatIn", 1).due(53, "heatIn", 24)
+        .due(60, "heatIn", 25).due(82, "heatIn", 47);
     x.due(83, "heatIn", 48).done("hours", 48).due(83, "heatIn", 0).due(90, "heatIn", 1).due(99, "heatIn", 48);
     Run.bounds(Run::busy, -1, "heatIn", new int[] {0}, 0, 0, 48);
   }

@@ -2,8 +2,6 @@
 public final class HoursBoundsTest {
   /** One THING and one SEAT at the same X; all is SEEN. */
   private static final String PAIR = "thing a 9 4; seat s 9 999; heat = 5;";
-  /** It is SEEN on the first day, and never after it. */
-  private static final String FIRST_DAY = "thing a 9 4; seat s 9 999; heat = 5; seen = 1 - day; grace 99;";
 
   public static void main(String[] args) {
     laws();
@@ -85,7 +83,8 @@ public final class HoursBoundsTest {
     // the day is no day of a week, nor is it held to anything
     Run x = Run.of("heat = day - 100; begins 23;");
     for (int i = 0; i < 100; i++) x.done("hours", 48);
-    x.due(4823, "count", 2).due(23, "count", 3).due(200, "count", 4).due(99, "count", 15).done("hours", 1).due(201, "count", 4).due(0, "count", 3);
+    x.due(4823, "count", 2).due(23, "count", 3).due(200, "count", 4).due(99, "count", 15).done("hours", 1).due(201, "count", 4)
+        .due(0, "count", 3);
   }
 
   private static void heatIs(int want, String law) { Run.of("heat = " + law + ";").due(want, "heatIn", 0); }
@@ -163,7 +162,8 @@ public final class HoursBoundsTest {
     // all LAWS: nothing is SEEN, it is not moved, there is no RENT and no INTEREST
     Run x = Run.of("thing a 9 4; seen = 7 / (far - 1); moved = 7 / (far - 2); rent = 7 / (far - 3); interest = 7 / lent;");
     x.due(-2, "sight", 8, 0, 0).due(-2, "sight", 10, 0, 0).due(-2, "sight", 9, 0, 0);
-    x.due(9, "sight", 7, 0, 0).due(0, "tells", 1, 7, 0, 0).due(0, "tells", 1, 11, 0, 0).due(7, "tells", 1, 6, 0, 0).due(16, "sight", 6, 0, 0);
+    x.due(9, "sight", 7, 0, 0).due(0, "tells", 1, 7, 0, 0).due(0, "tells", 1, 11, 0, 0).due(7, "tells", 1, 6, 0, 0)
+        .due(16, "sight", 6, 0, 0);
     x.due(0, "tells", 2, 6, 0, 0).due(0, "tells", 2, 12, 0, 0).due(7, "tells", 2, 5, 0, 0).due(0, "tells", 2, 7, 0, 0);
     x.due(0, "tells", 3, 0, 0, 0).due(7, "tells", 3, 0, 0, 1);
     // one LAW that is divided by 0 does not touch the others
@@ -179,9 +179,9 @@ public final class HoursBoundsTest {
         {true, true, true, true, true, true, true, true, true}, {true, true, true, false, false, false, true, false, false}};
     for (int law = 0; law < 4; law++)
       for (int var = 0; var < 9; var++) {
-        Run x = Run.of("thing a 9 4; heat = 33; begins 3; " + laws[law] + " = " + vars[var] + ";").done("hours", 24);
         int want = isTold[law][var] ? told[var] : 0;
-        x.due(law == 1 ? Math.min(want, 9) : want, "tells", law, 2, 0, 20);
+        Run x = Run.of("thing a 9 4; heat = 33; begins 3; " + laws[law] + " = 5 + " + vars[var] + " - " + want + ";").done("hours", 24);
+        x.due(5, "tells", law, 2, 0, 20);
       }
     // SEEN: it tells more than 0, or just 0
     for (int var = 0; var < 9; var++) {
@@ -189,10 +189,17 @@ public final class HoursBoundsTest {
       Run.of("thing a 9 4; heat = 33; begins 3; seen = " + vars[var] + " - " + want + ";").done("hours", 24).due(-2, "sight", 2, 0, 0);
       Run.of("thing a 9 4; heat = 33; begins 3; seen = " + vars[var] + " + 1 - " + want + ";").done("hours", 24).due(9, "sight", 2, 0, 0);
     }
+    // INTEREST in an HOUR: it is hour 3, 100 are lent, one sits at 2
+    for (int var = 0; var < 9; var++) {
+      int want = new int[] {3, 0, 33, 0, 0, 0, 100, 0, 0}[var];
+      Run x = Run.of("thing a 9 4; seat s 2 100; heat = 33; winds 100; begins 3; interest = 5 + " + vars[var] + " - " + want + ";");
+      x.done("lend", 0, 0, 100).done("hours", 1).due(105, "loan", 0, 0, 0);
+    }
     // also right behind what was lent was looked at
     Run x = Run.of("thing a 9 4; thing b 9 4; seat s 9 99; heat = 33; seen = 1 - lent; moved = lent; interest = far + tall + across + at + side;")
         .done("lend", 0, 0, 50).done("lend", 0, 1, 9).done("hours", 3);
-    x.due(24, "seat", 0, 6).due(9, "sight", 9, 1, 0).due(4, "tells", 2, 9, 0, 50).due(0, "tells", 1, 9, 0, 50).due(0, "tells", 3, 9, 0, 50).due(3, "seat", 0, 2);
+    x.due(24, "seat", 0, 6).due(9, "sight", 9, 1, 0).due(4, "tells", 2, 9, 0, 50).due(0, "tells", 1, 9, 0, 50).due(0, "tells", 3, 9, 0, 50)
+        .due(3, "seat", 0, 2);
   }
 
   private static void heatHeld() {
@@ -261,7 +268,8 @@ public final class HoursBoundsTest {
       y.due(Math.min(19, 15 + moved), "sight", 19, 0, 0).due(Math.max(0, 4 - moved), "sight", 0, 1, 0);
     }
     Run x = Run.of("thing a 19 4; thing b 0 1; seen = 1; moved = 1; seat s 5 1;");
-    x.due(19, "sight", 5, 0, 0).due(19, "sight", 19, 0, 0).due(0, "sight", 5, 1, 0).due(1, "sight", 0, 1, 0).due(1, "crowd", 19).due(2, "crowd", 0);
+    x.due(19, "sight", 5, 0, 0).due(19, "sight", 19, 0, 0).due(0, "sight", 5, 1, 0).due(1, "sight", 0, 1, 0).due(1, "crowd", 19)
+        .due(2, "crowd", 0);
   }
 
   private static void rentHeld() {
@@ -273,16 +281,19 @@ public final class HoursBoundsTest {
     }
     // lent: 0 and 999 are asked for, and what is lent is more by INTEREST
     Run x = Run.of(PAIR + "rent = lent / 100 + lent - lent / 100 * 100;");
-    x.due(0, "tells", 2, 3, 0, 0).due(1, "tells", 2, 3, 0, 1).due(99, "tells", 2, 3, 0, 99).due(1, "tells", 2, 3, 0, 100).due(99, "tells", 2, 3, 0, 999);
+    x.due(0, "tells", 2, 3, 0, 0).due(1, "tells", 2, 3, 0, 1).due(99, "tells", 2, 3, 0, 99).due(1, "tells", 2, 3, 0, 100)
+        .due(99, "tells", 2, 3, 0, 999);
     Run y = Run.of("thing a 9 4; seat s 9 99; heat = 5; seen = if hour < 1 then 1 else if hour < 2 then 0 else 1; interest = 10; rent = lent;");
-    y.due(79, "lend", 0, 0, 20).done("hours", 1).due(20, "seat", 0, 6).done("hours", 1).due(22, "loan", 0, 0, 0).done("hours", 1).due(42, "seat", 0, 6);
+    y.due(79, "lend", 0, 0, 20).done("hours", 1).due(20, "seat", 0, 6).done("hours", 1).due(22, "loan", 0, 0, 0).done("hours", 1)
+        .due(42, "seat", 0, 6);
   }
 
   private static void interestHeld() {
     int[] want = {0, 0, 1, 98, 99, 99};
     String[] laws = {"0 - 1", "0", "1", "98", "99", "100"};
     for (int i = 0; i < 6; i++) {
-      Run x = Run.of(PAIR + "winds 100; interest = " + laws[i] + ";").due(want[i], "tells", 3, 3, 0, 10).due(899, "lend", 0, 0, 100).done("hours", 1);
+      Run x = Run.of(PAIR + "winds 100; interest = " + laws[i] + ";").due(want[i], "tells", 3, 3, 0, 10).due(899, "lend", 0, 0, 100)
+          .done("hours", 1);
       x.due(100 + want[i], "loan", 0, 0, 0).due(899, "seat", 0, 1);
     }
     // by what is lent then, and by the HEAT of the HOUR
@@ -342,7 +353,8 @@ public final class HoursBoundsTest {
     x.due(998, "lend", 0, 0, 1).due(-2, "lend", 0, 0, 1).due(997, "lend", 0, 1, 1).due(49, "lend", 1, 0, 1).due(3, "count", 5);
     x.due(1, "call", 0, 0).due(993, "lend", 0, 0, 5).due(-2, "lend", 0, 0, 5);
     x.done("hours", 1).due(1, "call", 1, 0).due(48, "lend", 1, 0, 2).due(0, "loan", 1, 0, 1).due(-2, "lend", 1, 0, 2);
-    x.done("hours", 1).due(2, "seat", 0, 5).due(986, "lend", 0, 0, 7).due(7, "loan", 0, 0, 0).due(0, "loan", 0, 0, 1).due(-2, "lend", 0, 0, 7);
+    x.done("hours", 1).due(2, "seat", 0, 5).due(986, "lend", 0, 0, 7).due(7, "loan", 0, 0, 0).due(0, "loan", 0, 0, 1)
+        .due(-2, "lend", 0, 0, 7);
     x.due(1, "loan", 1, 0, 1).done("hours", 1).due(-2, "loan", 1, 0, 1).due(1, "loan", 0, 0, 1);
   }
 
@@ -358,12 +370,16 @@ public final class HoursBoundsTest {
   private static void mostCoins() {
     // 993 and 594 an hour: 99,597 behind 166 hours, then 99,999 and no more
     Run x = rich("rent = 99;").done("hours", 48).done("hours", 48).done("hours", 48).done("hours", 22);
-    x.due(993 + 166 * 594, "seat", 0, 1).done("hours", 1).due(99999, "seat", 0, 1).done("hours", 1).due(99999, "seat", 0, 1).due(99999, "count", 7);
-    x.due(168 * 594, "seat", 0, 6).due(168 * 594, "count", 14).due(99999 + 6, "book", 0, 0).due(99999 + 6, "book", 0, 48).due(99999 + 6, "rich", 48, 1);
+    x.due(993 + 166 * 594, "seat", 0, 1).done("hours", 1).due(99999, "seat", 0, 1).done("hours", 1).due(99999, "seat", 0, 1)
+        .due(99999, "count", 7);
+    x.due(168 * 594, "seat", 0, 6).due(168 * 594, "count", 14).due(99999 + 6, "book", 0, 0).due(99999 + 6, "book", 0, 48)
+        .due(99999 + 6, "rich", 48, 1);
     // just 99,999: 402 more behind 166 hours; or 396 and then 6; or one more than that
     String last = "rent = if day < 6 then 99 else if hour < 22 then 99 else if hour < 23 then 67 else 1;";
-    Run y = rich(last).done("hours", 48).done("hours", 48).done("hours", 48).done("hours", 22).due(99597, "seat", 0, 1).due(99999 + 6, "book", 0, 1);
-    y.done("hours", 1).due(99999, "seat", 0, 1).due(98604 + 402, "seat", 0, 6).done("hours", 1).due(99999, "seat", 0, 1).due(98604 + 408, "seat", 0, 6);
+    Run y = rich(last).done("hours", 48).done("hours", 48).done("hours", 48).done("hours", 22).due(99597, "seat", 0, 1)
+        .due(99999 + 6, "book", 0, 1);
+    y.done("hours", 1).due(99999, "seat", 0, 1).due(98604 + 402, "seat", 0, 6).done("hours", 1).due(99999, "seat", 0, 1)
+        .due(98604 + 408, "seat", 0, 6);
     Run z = rich(last.replace("67", "66")).done("hours", 48).done("hours", 48).done("hours", 48).done("hours", 23).due(99993, "seat", 0, 1);
     z.done("hours", 1).due(99999, "seat", 0, 1);
     Run w = rich(last.replace("67 else 1", "66 else 2")).done("hours", 48).done("hours", 48).done("hours", 48).done("hours", 24);
@@ -377,7 +393,8 @@ public final class HoursBoundsTest {
     x.due(40, "seat", 0, 6).due(0, "seat", 0, 5);
     // GRACE less 1 hours unseen, one SEEN, and all of GRACE is left again
     Run y = Run.of("thing a 9 4; seat s 9 99; heat = 9; grace 3; seen = if hour < 1 then 1 else if hour < 3 then 0 else if hour < 4 then 1 else 0;");
-    y.done("lend", 0, 0, 10).done("hours", 3).due(2, "loan", 0, 0, 1).done("hours", 1).due(0, "loan", 0, 0, 1).done("hours", 2).due(2, "loan", 0, 0, 1);
+    y.done("lend", 0, 0, 10).done("hours", 3).due(2, "loan", 0, 0, 1).done("hours", 1).due(0, "loan", 0, 0, 1).done("hours", 2)
+        .due(2, "loan", 0, 0, 1);
     y.due(0, "seat", 0, 5).done("hours", 1).due(1, "seat", 0, 5);
   }
 
@@ -395,12 +412,14 @@ public final class HoursBoundsTest {
       x.done("hours", 48).due(1, "count", 8);
     }
     // the HOURS of a long call count like those of short ones
-    Run.of(PAIR + "winds 100; grace 99;").done("lend", 0, 0, 100).done("hours", 48).done("hours", 48).done("hours", 2).due(98, "loan", 0, 0, 1)
+    Run.of(PAIR + "winds 100; grace 99;").done("lend", 0, 0, 100).done("hours", 48).done("hours", 48).done("hours", 2)
+        .due(98, "loan", 0, 0, 1)
         .done("hours", 48).due(-2, "loan", 0, 0, 1);
   }
 
   private static void moreByInterest() {
-    int[][] rows = {{1, 99, 1}, {2, 49, 2}, {2, 50, 3}, {9, 10, 9}, {10, 10, 11}, {19, 10, 20}, {101, 99, 200}, {999, 99, 1988}, {999, 1, 1008}, {99, 1, 99}, {100, 1, 101}};
+    int[][] rows = {{1, 99, 1}, {2, 49, 2}, {2, 50, 3}, {9, 10, 9}, {10, 10, 11}, {19, 10, 20}, {101, 99, 200},
+        {999, 99, 1988}, {999, 1, 1008}, {99, 1, 99}, {100, 1, 101}};
     for (int[] row : rows)
       Run.of(PAIR + "winds 100; interest = " + row[1] + ";").done("lend", 0, 0, row[0]).done("hours", 1).due(row[2], "loan", 0, 0, 0);
     // 999 and 99 of 100 an hour, till there are 99,999
@@ -415,7 +434,8 @@ public final class HoursBoundsTest {
     // by so many of 100 it comes to so much behind so many hours, then by so many to 99,998, to 99,999, to 100,000, which is too much
     int[][] edges = {{97, 724, 7, 83332, 20, 99998}, {99, 926, 6, 57471, 74, 99999}, {96, 527, 7, 58480, 71, 99999}};
     for (int[] row : edges) {
-      Run y = Run.of(PAIR + "winds 100; interest = if lent < 51 * 1000 then " + row[0] + " else " + row[4] + ";").done("lend", 0, 0, row[1]);
+      Run y = Run.of(PAIR + "winds 100; interest = if lent < 51 * 1000 then " + row[0] + " else " + row[4] + ";")
+          .done("lend", 0, 0, row[1]);
       y.done("hours", row[2]).due(row[3], "loan", 0, 0, 0).due(row[5], "lentIn", 0, 0, 1).done("hours", 1).due(row[5], "loan", 0, 0, 0);
     }
   }
@@ -430,7 +450,8 @@ public final class HoursBoundsTest {
 
   private static void noWindByHand() {
     Run x = Run.of(PAIR + "winds 100;").due(1, "count", 13).due(1, "thing", 0, 2).due(1, "seat", 0, 2).due(1, "count", 16);
-    x.due(994, "lend", 0, 0, 5).due(5, "call", 0, 0).due(999, "seat", 0, 1).due(9, "sight", 9, 0, 0).due(1, "crowd", 9).due(0, "near", 9, 0);
+    x.due(994, "lend", 0, 0, 5).due(5, "call", 0, 0).due(999, "seat", 0, 1).due(9, "sight", 9, 0, 0).due(1, "crowd", 9)
+        .due(0, "near", 9, 0);
   }
 
   // ---- promises 6 to 9
@@ -453,6 +474,13 @@ public final class HoursBoundsTest {
       x.due(59, "lend", seat, 5, 1).due(32, "seat", seat, 3);
     }
     x.due(63, "thing", 5, 3).due(0, "thing", 0, 3).due(-1, "thing", 6, 0);
+    // each SEAT alone
+    String six = "seat a 0 9;seat b 4 9;seat c 8 9;seat d 12 9;seat e 16 9;seat f 19 9;heat = 1;";
+    for (int seat = 0; seat < 6; seat++) {
+      Run y = Run.of("thing t " + new int[] {0, 4, 8, 12, 16, 19}[seat] + " 1;" + six).due(1 << seat, "thing", 0, 2).due(0, "thing", 0, 3);
+      y.done("lend", seat, 0, 1).due(1 << seat, "thing", 0, 3);
+    }
+    Run.of("thing t 2 1;" + six).due(0, "thing", 0, 2).due(0, "thing", 0, 3);
     Run.of("seat s 1 1;").due(-1, "thing", 0, 0).due(-1, "thing", 0, 2).due(-1, "thing", -1, 0);
   }
 
@@ -465,16 +493,25 @@ public final class HoursBoundsTest {
     }
     Run.bounds(Run::busy, -1, "seat", new int[] {1, 0}, 1, 0, 6);
     // what is lent is as it is, till it is GONE
-    Run x = Run.busy().done("hours", 3).due(12, "seat", 0, 4).due(24, "seat", 1, 4).due(0, "seat", 0, 5).due(1, "seat", 0, 3).due(2, "seat", 0, 2);
-    x.done("hours", 1).due(0, "seat", 0, 4).due(0, "seat", 0, 3).due(1, "seat", 0, 5).due(1, "seat", 1, 5).due(102, "seat", 0, 1).due(12, "seat", 0, 6);
+    Run x = Run.busy().done("hours", 3).due(12, "seat", 0, 4).due(24, "seat", 1, 4).due(0, "seat", 0, 5).due(1, "seat", 0, 3)
+        .due(2, "seat", 0, 2);
+    x.done("hours", 1).due(0, "seat", 0, 4).due(0, "seat", 0, 3).due(1, "seat", 0, 5).due(1, "seat", 1, 5).due(102, "seat", 0, 1)
+        .due(12, "seat", 0, 6);
     full().due(63, "seat", 5, 2).due(0, "seat", 5, 3).due(-1, "seat", 6, 0);
+    // each THING alone
+    String six = "thing a 0 1;thing b 4 1;thing c 8 1;thing d 12 1;thing e 16 1;thing f 19 1;heat = 1;";
+    for (int thing = 0; thing < 6; thing++) {
+      Run y = Run.of("seat s " + new int[] {0, 4, 8, 12, 16, 19}[thing] + " 9;" + six).due(1 << thing, "seat", 0, 2).due(0, "seat", 0, 3);
+      y.done("lend", 0, thing, 1).due(1 << thing, "seat", 0, 3);
+    }
     Run.of("thing a 1 1;").due(-1, "seat", 0, 0).due(-1, "seat", 0, 6).due(-1, "seat", -1, 0);
     Run.of("seat s 1 1;").due(0, "seat", 0, 2).due(0, "seat", 0, 3).due(0, "seat", 0, 4);
   }
 
   private static void loanAnswers() {
     Run.busy().due(10, "loan", 0, 0, 0).due(0, "loan", 0, 0, 1).due(20, "loan", 1, 1, 0).due(-2, "loan", 0, 1, 0).due(-2, "loan", 1, 0, 1);
-    Run.busy().done("hours", 3).due(12, "loan", 0, 0, 0).due(2, "loan", 0, 0, 1).done("hours", 1).due(-2, "loan", 0, 0, 0).due(-2, "loan", 0, 0, 1);
+    Run.busy().done("hours", 3).due(12, "loan", 0, 0, 0).due(2, "loan", 0, 0, 1).done("hours", 1).due(-2, "loan", 0, 0, 0)
+        .due(-2, "loan", 0, 0, 1);
     for (int thing = 0; thing <= 1; thing++) {
       Run.bounds(Run::busy, -1, "loan", new int[] {0, thing, 0}, 0, 0, 1);
       Run.bounds(Run::busy, -1, "loan", new int[] {0, 0, thing}, 1, 0, 1);
@@ -484,7 +521,8 @@ public final class HoursBoundsTest {
   }
 
   private static void tellsAnswers() {
-    Run.busy().due(12, "tells", 0, 0, 0, 0).due(3, "tells", 1, 0, 0, 0).due(5, "tells", 2, 0, 0, 0).due(5, "tells", 2, 0, 0, 9).due(6, "tells", 2, 0, 0, 10)
+    Run.busy().due(12, "tells", 0, 0, 0, 0).due(3, "tells", 1, 0, 0, 0).due(5, "tells", 2, 0, 0, 0).due(5, "tells", 2, 0, 0, 9)
+        .due(6, "tells", 2, 0, 0, 10)
         .due(1, "tells", 2, 19, 1, 0).due(99, "tells", 2, 19, 1, 999).due(10, "tells", 3, 0, 0, 0).due(10, "tells", 3, 0, 0, 999);
     for (int what = 1; what <= 2; what++) {
       Run.bounds(Run::busy, -100, "tells", new int[] {what, 0, 0, 0}, 1, 0, 19);
@@ -498,7 +536,8 @@ public final class HoursBoundsTest {
       x.due(10, "tells", 3, any, 0, 0).due(10, "tells", 3, 0, any, 0).due(10, "tells", 3, any, any, 999);
       x.due(3, "tells", 1, 0, 0, any);
     }
-    Run.of("heat = 7; interest = 8;").due(7, "tells", 0, 0, 0, 0).due(8, "tells", 3, 0, 0, 0).due(-100, "tells", 1, 0, 0, 0).due(-100, "tells", 2, 0, 0, 0);
+    Run.of("heat = 7; interest = 8;").due(7, "tells", 0, 0, 0, 0).due(8, "tells", 3, 0, 0, 0).due(-100, "tells", 1, 0, 0, 0)
+        .due(-100, "tells", 2, 0, 0, 0);
   }
 
   // ---- promises 10 to 14
@@ -534,7 +573,8 @@ public final class HoursBoundsTest {
   }
 
   private static void callTaken() {
-    Run x = Run.busy().due(10, "call", 0, 0).due(106, "seat", 0, 1).due(-2, "loan", 0, 0, 0).due(1, "count", 5).due(5, "count", 10).due(0, "count", 8);
+    Run x = Run.busy().due(10, "call", 0, 0).due(106, "seat", 0, 1).due(-2, "loan", 0, 0, 0).due(1, "count", 5).due(5, "count", 10)
+        .due(0, "count", 8);
     x.due(-2, "call", 0, 0).due(5, "count", 10);
     Run.busy().done("hours", 3).done("move", 0, 8).due(12, "call", 0, 0).due(114, "seat", 0, 1);
   }
@@ -562,7 +602,8 @@ public final class HoursBoundsTest {
   }
 
   private static void moves() {
-    Run.busy().due(1, "move", 0, 0).due(0, "seat", 0, 0).due(1, "move", 0, 19).due(19, "seat", 0, 0).due(15, "seat", 1, 0).due(6, "count", 10);
+    Run.busy().due(1, "move", 0, 0).due(0, "seat", 0, 0).due(1, "move", 0, 19).due(19, "seat", 0, 0).due(15, "seat", 1, 0)
+        .due(6, "count", 10);
     // what it SEES is by its new X, and its loans and COINS stay
     Run.busy().due(1, "move", 0, 19).due(1, "seat", 0, 2).due(10, "loan", 0, 0, 0).due(96, "seat", 0, 1);
     // two SEATS may be at one X
@@ -601,7 +642,8 @@ public final class HoursBoundsTest {
     Run.unchanged(() -> Run.busy().done("restore", 1), 0, "undo");
     Run.unchanged(() -> Run.of(Run.NOON).done("move", 0, 5).due(1, "undo"), 0, "undo");
     // what is no such thing is none to be undone
-    Run x = Run.of(Run.NOON).done("hours", 0).done("hold", 0).done("tell", 1, 1, 1).done("forget").done("feed", 0, 0, 0, 0, 0).done("back", 20);
+    Run x = Run.of(Run.NOON).done("hours", 0).done("hold", 0).done("tell", 1, 1, 1).done("forget").done("feed", 0, 0, 0, 0, 0)
+        .done("back", 20);
     x.due(-1, "hours", 49).due(-1, "lend", 0, 0, 0).due(-2, "lend", 0, 0, 101).due(-2, "call", 0, 0).due(0, "move", 0, 2);
     x.due(0, "count", 10).due(0, "undo");
   }

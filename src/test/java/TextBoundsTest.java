@@ -250,7 +250,8 @@ public final class TextBoundsTest {
 
   private static void numbered() {
     Run x = Run.of("seat z 5 50; thing y 3 1; seat x 6 60; thing w 2 2; thing a 1 3; seat b 7 70;");
-    for (int i = 0; i < 3; i++) x.due(3 - i, "thing", i, 0).due(1 + i, "thing", i, 1).due(5 + i, "seat", i, 0).due(50 + 10 * i, "seat", i, 1);
+    for (int i = 0; i < 3; i++) x.due(3 - i, "thing", i, 0).due(1 + i, "thing", i, 1).due(5 + i, "seat", i, 0)
+        .due(50 + 10 * i, "seat", i, 1);
     x.due(-1, "thing", 3, 0).due(-1, "seat", 3, 0).due(-1, "thing", -1, 0).due(-1, "seat", -1, 0);
   }
 
@@ -260,7 +261,8 @@ public final class TextBoundsTest {
     x.due(7, "sight", 3, 0, 0).due(-2, "sight", 2, 0, 0).due(7, "sight", 11, 0, 0).due(-2, "sight", 12, 0, 0);
     // one that is told does not touch the others, and the next text has those that hold if none is told again
     Run y = Run.of("thing a 7 4; heat=9; seen=1; moved=2; rent=3; interest=4;");
-    y.due(9, "tells", 0, 0, 0, 0).due(2, "tells", 1, 0, 0, 0).due(3, "tells", 2, 0, 0, 0).due(4, "tells", 3, 0, 0, 0).due(9, "sight", 0, 0, 0);
+    y.due(9, "tells", 0, 0, 0, 0).due(2, "tells", 1, 0, 0, 0).due(3, "tells", 2, 0, 0, 0).due(4, "tells", 3, 0, 0, 0)
+        .due(9, "sight", 0, 0, 0);
     y.read("thing a 7 4; begins 5; rent = 8;");
     y.due(5, "tells", 0, 0, 0, 0).due(8, "tells", 2, 0, 0, 50).due(0, "tells", 3, 0, 0, 50).due(0, "tells", 1, 0, 0, 0);
     y.due(7, "sight", 3, 0, 0).due(-2, "sight", 2, 0, 0);
@@ -268,7 +270,8 @@ public final class TextBoundsTest {
 
   private static void lastLaw() {
     Run x = Run.of("thing a 7 4; heat=1; seen=0; moved=1; rent=1; interest=1; heat=2; seen=1; moved=3; rent=4; interest=5;");
-    x.due(2, "tells", 0, 0, 0, 0).due(3, "tells", 1, 0, 0, 0).due(4, "tells", 2, 0, 0, 0).due(5, "tells", 3, 0, 0, 0).due(10, "sight", 0, 0, 0);
+    x.due(2, "tells", 0, 0, 0, 0).due(3, "tells", 1, 0, 0, 0).due(4, "tells", 2, 0, 0, 0).due(5, "tells", 3, 0, 0, 0)
+        .due(10, "sight", 0, 0, 0);
     // the ifs are counted anew for each
     Run.of("heat = " + "if 1 < 0 then 2 else ".repeat(4) + "3; heat = " + "if 1 < 0 then 2 else ".repeat(4) + "5;").due(5, "heatIn", 0);
     Run.of("heat=1;".repeat(80) + "heat=2;").due(2, "count", 15).due(2, "heatIn", 0);
@@ -316,7 +319,8 @@ public final class TextBoundsTest {
 
   private static void beginsNumbers() {
     Run.of("begins 0;").due(0, "count", 2).due(0, "count", 3).due(0, "count", 4);
-    Run.of("begins 23;").due(23, "count", 2).due(23, "count", 3).due(0, "count", 4).due(24, "hours", 1).due(0, "count", 3).due(1, "count", 4);
+    Run.of("begins 23;").due(23, "count", 2).due(23, "count", 3).due(0, "count", 4).due(24, "hours", 1).due(0, "count", 3)
+        .due(1, "count", 4);
     Run.of("seed 1;").due(0, "count", 2);
     Run.fault(5, 7, "begins 24;");
     Run.fault(5, 7, "begins 9999;");
@@ -344,6 +348,19 @@ public final class TextBoundsTest {
     int other = HoursBoundsTest.lot(5, 0);
     Run.of("seed 4; seed 5; winds " + Math.max(lot, other) + ";").due(other < Math.max(lot, other) ? 1 : 0, "count", 13);
     Run.of("seed 5; seed 4; winds " + Math.max(lot, other) + ";").due(lot < Math.max(lot, other) ? 1 : 0, "count", 13);
+    // the next texts have those that hold if none is told again
+    String told = "grace 7; begins 3; seed 5; winds 100;";
+    Run x = new Run();
+    for (int i = 0; i < 4; i++) {
+      x.read(told).due(3, "count", 2).due(1, "count", 13);
+      x.read("winds " + HoursBoundsTest.lot(0, 0) + ";").due(0, "count", 13).due(0, "count", 2);
+      x.read("winds " + (HoursBoundsTest.lot(0, 0) + 1) + ";").due(1, "count", 13).due(0, "count", 2);
+    }
+    for (int i = 0; i < 4; i++) {
+      if (i % 2 == 0) x.read("seed 1;");
+      x.read(told).read("thing a 1 1; seat s 1 9; seen = 1 - hour;").due(0, "count", 13).done("lend", 0, 0, 5);
+      x.done("hours", 23).due(22, "loan", 0, 0, 1).done("hours", 1).due(23, "loan", 0, 0, 1);
+    }
     // one that is wrong is a FAULT, though it is not the last
     Run.fault(5, 6, "grace 0; grace 3;");
     Run.fault(5, 7, "begins 24; begins 3;");
@@ -419,6 +436,12 @@ public final class TextBoundsTest {
     // the text's end is no TOKEN: behind 400 it is SYNTAX if a text does not end there
     Run.fault(1, tokens.length() + 11, tokens + "seed 1;seed");
     Run.fault(2, tokens.length() + 12, tokens + "seed 1;seed 1");
+    // as many again and again
+    Run again = new Run();
+    for (int i = 0; i < 5; i++) {
+      again.read("heat=" + i + "+1".repeat(197) + "-190;").due(i + 7, "heatIn", 0);
+      again.feed("heat=1" + "+1".repeat(199)).due(2, "read").due(403, "place");
+    }
     // blanks are none
     Run.of(" ".repeat(900) + tokens + "heat=7;" + " ".repeat(100)).due(7, "heatIn", 0);
   }
@@ -518,9 +541,16 @@ public final class TextBoundsTest {
   }
 
   private static void inPlaceOfTheOneAhead() {
+    // with loans, and once they are GONE
+    Run.busy().due(2, "count", 5).done("back", 20).read(Run.NOON).due(0, "count", 5).due(0, "count", 6).due(-2, "loan", 0, 0, 0)
+        .due(0, "seat", 0, 3)
+        .like(Run.of(Run.NOON), "behind loans");
+    Run.busy().done("hours", 2).done("back", 20).read(Run.NOON).done("lend", 0, 0, 10).due(0, "loan", 0, 0, 1)
+        .like(Run.of(Run.NOON).done("lend", 0, 0, 10), "a loan anew");
     for (String text : new String[] {"", "seat q 3 7; begins 5;", Run.NOON}) {
       Run x = Run.busy().done("hours", 4).done("hold", 0).done("hold", 2).done("back", 20).read(text);
-      x.due(0, "count", 5).due(0, "count", 6).due(0, "count", 8).due(0, "count", 10).due(0, "count", 11).due(0, "count", 12).due(0, "count", 14);
+      x.due(0, "count", 5).due(0, "count", 6).due(0, "count", 8).due(0, "count", 10).due(0, "count", 11).due(0, "count", 12)
+          .due(0, "count", 14);
       x.due(0, "undo").due(0, "restore", 0).due(0, "restore", 1).due(0, "restore", 2).due(0, "forget");
       x.due(text.isEmpty() ? 0 : text.equals(Run.NOON) ? 10 : 5, "count", 2);
       x.like(Run.of(text), "behind the text '" + text + "'");
@@ -532,7 +562,8 @@ public final class TextBoundsTest {
   private static void aNewObject() {
     Run x = new Run();
     for (int what = 0; what <= 16; what++) x.due(0, "count", what);
-    x.due(-1, "place").due(-1, "thing", 0, 0).due(-1, "seat", 0, 0).due(-1, "loan", 0, 0, 0).due(0, "undo").due(0, "restore", 0).due(0, "forget");
+    x.due(-1, "place").due(-1, "thing", 0, 0).due(-1, "seat", 0, 0).due(-1, "loan", 0, 0, 0).due(0, "undo").due(0, "restore", 0)
+        .due(0, "forget");
     new Run().like(Run.of(""), "a new object");
     new Run().due(0, "heatIn", 0).due(23, "heatIn", 23).due(0, "heatIn", 24).due(48, "hours", 48).due(1, "undo").due(0, "undo");
   }
@@ -546,7 +577,8 @@ public final class TextBoundsTest {
   private static void highestByteFirst() {
     new Run().due(20, "feed", 0x73656564, 0x20313b20, 0x20202020, 0x20202020, 0x20202020).due(0, "read");
     new Run().due(20, "feed", 0x20202020, 0x20202020, 0x20202020, 0x20202073, 0x65617420)
-        .due(40, "feed", 0x71203139, 0x20393939, 0x3b202020, 0x20202020, 0x20202020).due(0, "read").due(19, "seat", 0, 0).due(999, "seat", 0, 1);
+        .due(40, "feed", 0x71203139, 0x20393939, 0x3b202020, 0x20202020, 0x20202020).due(0, "read").due(19, "seat", 0, 0)
+        .due(999, "seat", 0, 1);
     // a byte above 127 is no other one, nor does it touch its neighbours
     for (int at = 0; at < 4; at++) {
       int word = 0x20202020 | 0xff << 24 - 8 * at;
@@ -582,7 +614,8 @@ public final class TextBoundsTest {
     new Run().feed("seat q 1 7").due(1, "read").due(0, "count", 9).due(0, "read").due(0, "count", 1);
     // what comes behind a read has nothing of what was ahead of it
     new Run().feed("seat q 1 7").due(1, "read").feed(";").due(1, "read").due(0, "place");
-    new Run().feed("?".repeat(2000)).due(1, "read").due(20, "feed", 0x20202020, 0x20202020, 0x20202020, 0x20202020, 0x20202020).due(0, "read");
+    new Run().feed("?".repeat(2000)).due(1, "read").due(20, "feed", 0x20202020, 0x20202020, 0x20202020, 0x20202020, 0x20202020)
+        .due(0, "read");
   }
 
   private static void placeOfTheLatest() {

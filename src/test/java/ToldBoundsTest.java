@@ -47,11 +47,14 @@ public final class ToldBoundsTest {
     Run x = Run.of("seen = 1 - day;");
     x.due(0, "tell", 0, -1, 24).due(180, "stands", 1).due(1, "forget").due(0, "tell", 0, -1, 23).due(0, "stands", 1).due(1, "forget");
     x.due(0, "tell", 0, 5, 0).due(9, "stands", 1).due(1, "forget").due(0, "tell", 0, 5, 23).due(9, "stands", 1).due(1, "forget");
-    x.due(0, "tell", 0, 5, 24).due(0, "stands", 1).due(1, "forget").done("hours", 23).due(0, "tell", 0, 5, 0).due(9, "stands", 1).due(1, "tell", 0, -1, 1);
+    x.due(0, "tell", 0, 5, 24).due(0, "stands", 1).due(1, "forget").done("hours", 23).due(0, "tell", 0, 5, 0).due(9, "stands", 1)
+        .due(1, "tell", 0, -1, 1);
     x.due(9, "stands", 2);
     // from the first X and from the last, at the first X' and at the last
-    Run y = Run.of("seen = 10 - far;").due(0, "tell", 0, 0, 0).due(9, "stands", 1).due(1, "tell", 19, -1, 0).due(9, "stands", 2).due(2, "forget");
-    y.due(0, "tell", 19, 19, 0).due(9, "stands", 1).due(1, "tell", 0, -1, 0).due(9, "stands", 2).due(2, "tell", 9, 19, 0).due(0, "stands", 3).due(3, "forget");
+    Run y = Run.of("seen = 10 - far;").due(0, "tell", 0, 0, 0).due(9, "stands", 1).due(1, "tell", 19, -1, 0).due(9, "stands", 2)
+        .due(2, "forget");
+    y.due(0, "tell", 19, 19, 0).due(9, "stands", 1).due(1, "tell", 0, -1, 0).due(9, "stands", 2).due(2, "tell", 9, 19, 0)
+        .due(0, "stands", 3).due(3, "forget");
     y.due(0, "tell", 0, -1, 0).due(90, "stands", 1).due(1, "tell", 19, -1, 0).due(0, "stands", 2);
   }
 
@@ -66,7 +69,8 @@ public final class ToldBoundsTest {
   }
 
   private static void numbered() {
-    Run x = Run.of(CLEAR).due(0, "tell", 0, 7, 0).due(1, "tell", 0, 7, 0).due(-1, "tell", 20, 7, 0).due(2, "tell", 0, 7, 0).due(3, "forget");
+    Run x = Run.of(CLEAR).due(0, "tell", 0, 7, 0).due(1, "tell", 0, 7, 0).due(-1, "tell", 20, 7, 0).due(2, "tell", 0, 7, 0)
+        .due(3, "forget");
     x.due(0, "tell", 0, 7, 0).due(1, "tell", 0, 7, 0).read(CLEAR).due(0, "count", 11).due(0, "tell", 0, 7, 0);
   }
 
@@ -75,7 +79,8 @@ public final class ToldBoundsTest {
     Run x = Run.of("seen = if across < at + 1 then 1 - far else 0;");
     for (int i = 0; i < 20; i++) x.due(i, "tell", i, -1, 0);
     for (int k = 0; k <= 20; k++) x.due(180 - 9 * k, "stands", k);
-    x.due(-1, "stands", 21).due(-2, "sure", 20, 0).due(-2, "sure", 18, 0).due(19, "sure", 19, 0).due(-2, "look", 20, 0).due(0, "look", 19, 0);
+    x.due(-1, "stands", 21).due(-2, "sure", 20, 0).due(-2, "sure", 18, 0).due(19, "sure", 19, 0).due(-2, "look", 20, 0)
+        .due(0, "look", 19, 0);
     x.due(18, "look", 18, 0);
   }
 
@@ -105,7 +110,8 @@ public final class ToldBoundsTest {
   private static void twentyByNine() {
     new Run().due(180, "stands", 0);
     // by its X alone, by its TALL alone, by both, by none
-    Run.of(CLEAR).done("tell", 0, 0, 0).due(9, "stands", 1).done("forget").done("tell", 0, 19, 0).due(9, "stands", 1).done("tell", 0, 18, 0).due(0, "stands", 2);
+    Run.of(CLEAR).done("tell", 0, 0, 0).due(9, "stands", 1).done("forget").done("tell", 0, 19, 0).due(9, "stands", 1).done("tell", 0, 18, 0)
+        .due(0, "stands", 2);
     for (int tall = 1; tall <= 9; tall++) {
       Run x = Run.of("seen = if tall < " + tall + " then 0 else " + (tall + 1) + " - tall;").done("tell", 0, -1, 0).due(160, "stands", 1);
       x.done("forget").done("tell", 0, 4, 0).due(1, "stands", 1).due(4, "sure", 1, 0).due(tall, "sure", 1, 1);
@@ -130,7 +136,8 @@ public final class ToldBoundsTest {
       // not SEEN at 8: not taller than 8; SEEN at 7: taller than 7
       run.done("tell", 0, -1, 8).done("tell", 0, x, 7).due(x, "sure", 3, 0).due(8, "sure", 3, 1).due(1, "stands", 3);
       run.done("forget").done("tell", 0, x, 8).due(x, "sure", 1, 0).due(9, "sure", 1, 1);
-      run.done("forget").done("tell", 0, -1, 1).due(-2, "sure", 1, 0).due(1, "sure", 1, 1).due(20, "stands", 1).done("tell", 0, x, 0).due(1, "sure", 2, 1);
+      run.done("forget").done("tell", 0, -1, 1).due(-2, "sure", 1, 0).due(1, "sure", 1, 1).due(20, "stands", 1).done("tell", 0, x, 0)
+          .due(1, "sure", 2, 1);
     }
   }
 
@@ -142,7 +149,8 @@ public final class ToldBoundsTest {
     x.done("tell", 0, 8, 0).due(-2, "sure", 2, 0).due(-2, "sure", 2, 1).due(-1, "sure", 3, 0);
     // two are left: of one X, or of one TALL
     Run.of("seen = tall - 7;").done("tell", 0, 7, 0).due(2, "stands", 1).due(7, "sure", 1, 0).due(-2, "sure", 1, 1);
-    Run.of("seen = tall - 8; moved = if across < 18 then 0 else 9;").done("tell", 0, 19, 0).due(2, "stands", 1).due(-2, "sure", 1, 0).due(9, "sure", 1, 1);
+    Run.of("seen = tall - 8; moved = if across < 18 then 0 else 9;").done("tell", 0, 19, 0).due(2, "stands", 1).due(-2, "sure", 1, 0)
+        .due(9, "sure", 1, 1);
   }
 
   private static void fewestAtWorst() {
@@ -152,8 +160,18 @@ public final class ToldBoundsTest {
     Run.of("seen = 0;").due(0, "look", 0, 24);
     // from one X alone something is SEEN
     for (int x = 0; x < 20; x++) Run.of("seen = 1 - (at - " + x + ") * (at - " + x + ");").due(x, "look", 0, 0).due(x, "look", 0, 24);
+    // from 20, where nobody looks from, it would be told apart
+    Run.of("seen = at - 19;").due(0, "look", 0, 0);
+    // one of all is told apart, and only from 4
+    Run.of("seen = if at < 4 then 0 else if 4 < at then 0 else if across < 19 then 0 else tall - 8;").due(4, "look", 0, 0);
+    // two are left, the first ones or the last ones of all: only from 3 they are told apart
+    Run first = Run.of("seen = if at < 1 then 3 - tall else if at < 3 then 0 else if at < 4 then tall - 1 else 0;");
+    first.done("tell", 0, 0, 0).due(2, "stands", 1).due(3, "look", 1, 0);
+    Run last = Run.of("seen = if at < 1 then tall - 7 else if at < 3 then 0 else if at < 4 then tall - 8 else 0;");
+    last.done("tell", 0, 19, 0).due(2, "stands", 1).due(3, "look", 1, 0);
     // nine are left: from 3 they come apart into 6, 1, 1, 1, from 5 into 4 and 5, which is fewer at worst
-    Run worst = Run.of(CLEAR + "moved = if at < 3 then 0 else if at < 4 then tall / 7 * (tall - 6) else if at < 5 then 0 else if at < 6 then tall / 5 else 0;");
+    Run worst = Run.of(CLEAR + "moved = if at < 3 then 0 else if at < 4 then tall / 7 * (tall - 6) else if at < 5 then 0 "
+        + "else if at < 6 then tall / 5 else 0;");
     worst.done("tell", 0, 9, 0).due(9, "stands", 1).due(5, "look", 1, 0);
     // those that are not SEEN are told from the others, too: from 7 into 4 and 5
     Run unseen = Run.of("seen = if at < 7 then 1 else if at < 8 then tall - 4 else 1;").done("tell", 0, 9, 0).due(7, "look", 1, 0);
@@ -162,14 +180,16 @@ public final class ToldBoundsTest {
     Run.of(CLEAR + "moved = at;").due(0, "look", 0, 0);
     Run.of(CLEAR + "moved = 9 - at;").due(9, "look", 0, 0);
     // by the hour: on the second day only, and from 6 alone
-    Run hour = Run.of("seen = if day < 1 then 0 else 1 - (at - 6) * (at - 6);").due(0, "look", 0, 0).due(0, "look", 0, 23).due(6, "look", 0, 24);
+    Run hour = Run.of("seen = if day < 1 then 0 else 1 - (at - 6) * (at - 6);").due(0, "look", 0, 0).due(0, "look", 0, 23)
+        .due(6, "look", 0, 24);
     hour.done("hours", 1).due(6, "look", 0, 23).due(0, "look", 0, 22);
   }
 
   private static void lookAnswers() {
     Run.bounds(Run::busy, -1, "look", new int[] {0, 0}, 0, 0, 2);
     Run.bounds(Run::busy, -1, "look", new int[] {0, 0}, 1, 0, 24);
-    Run.of(CLEAR).done("tell", 0, 7, 0).due(0, "look", 1, 0).done("tell", 0, 8, 0).due(-2, "look", 2, 0).due(-2, "look", 2, 24).due(0, "look", 1, 0).due(-1, "look", 3, 0);
+    Run.of(CLEAR).done("tell", 0, 7, 0).due(0, "look", 1, 0).done("tell", 0, 8, 0).due(-2, "look", 2, 0).due(-2, "look", 2, 24)
+        .due(0, "look", 1, 0).due(-1, "look", 3, 0);
     // one that is left is left from wherever one looks
     Run.of("seen = tall - 8;").done("tell", 0, 7, 0).due(1, "stands", 1).due(0, "look", 1, 0);
   }
@@ -188,9 +208,11 @@ public final class ToldBoundsTest {
     x.due(3, "count", 11).due(30, "count", 9).due(0, "count", 10).due(5, "read").due(26, "place");
     long[] first = {3, 102, 2, 1, 11, 0, 12};
     for (int what = 0; what <= 6; what++) x.due(first[what], "seat", 0, what);
-    x.due(13, "count", 2).due(1, "loan", 0, 0, 1).due(22, "loan", 1, 1, 0).due(1, "loan", 1, 1, 1).due(36, "seat", 1, 1).due(15, "seat", 1, 0);
+    x.due(13, "count", 2).due(1, "loan", 0, 0, 1).due(22, "loan", 1, 1, 0).due(1, "loan", 1, 1, 1).due(36, "seat", 1, 1)
+        .due(15, "seat", 1, 0);
     // loans that are GONE are held so
-    Run y = Run.busy().done("hours", 4).due(1, "hold", 0).due(2, "count", 8).done("hours", 10).done("lend", 0, 0, 9).due(1, "restore", 0).due(2, "count", 8).due(0, "count", 5);
+    Run y = Run.busy().done("hours", 4).due(1, "hold", 0).due(2, "count", 8).done("hours", 10).done("lend", 0, 0, 9).due(1, "restore", 0)
+        .due(2, "count", 8).due(0, "count", 5);
     // holding once more is in place of what was held
     y.done("hours", 5).due(1, "hold", 0).done("hours", 5).due(1, "restore", 0).due(20, "count", 2);
     // a new object has something to hold, too
@@ -198,9 +220,11 @@ public final class ToldBoundsTest {
   }
 
   private static void restores() {
-    Run x = Run.busy().done("hours", 5).due(1, "restore", 1).due(10, "count", 2).due(0, "count", 10).due(0, "undo").due(1, "count", 5).due(2, "seat", 0, 0);
+    Run x = Run.busy().done("hours", 5).due(1, "restore", 1).due(10, "count", 2).due(0, "count", 10).due(0, "undo").due(1, "count", 5)
+        .due(2, "seat", 0, 0);
     // it stays there, whatever goes on
-    x.done("hours", 30).due(1, "count", 10).due(1, "restore", 1).due(10, "count", 2).due(10, "loan", 0, 0, 0).due(0, "undo").due(1, "count", 12);
+    x.done("hours", 30).due(1, "count", 10).due(1, "restore", 1).due(10, "count", 2).due(10, "loan", 0, 0, 0).due(0, "undo")
+        .due(1, "count", 12);
     x.due(10, "call", 0, 0).due(1, "restore", 1).due(10, "loan", 0, 0, 0).due(90, "seat", 0, 1);
     // what was done ahead of it is not undone later either
     x.done("move", 0, 9).due(1, "count", 10).due(1, "undo").due(0, "undo").due(2, "seat", 0, 0).due(10, "count", 2);
@@ -211,7 +235,8 @@ public final class ToldBoundsTest {
     for (int slot = 2; slot >= 0; slot--) y.due(1, "restore", slot).due(slot, "count", 2).done("hours", 40);
     for (int slot = 0; slot < 3; slot++) y.due(1, "restore", slot).due(slot, "count", 2);
     // undo does not bring back what a SLOT held ahead
-    Run z = new Run().done("hours", 1).due(1, "hold", 0).due(1, "undo").due(0, "count", 2).due(1, "count", 12).due(1, "restore", 0).due(1, "count", 2);
+    Run z = new Run().done("hours", 1).due(1, "hold", 0).due(1, "undo").due(0, "count", 2).due(1, "count", 12).due(1, "restore", 0)
+        .due(1, "count", 2);
     z.due(0, "undo").due(1, "count", 2);
   }
 
@@ -237,7 +262,8 @@ public final class ToldBoundsTest {
     for (int what = 0; what <= 16; what++) y.due(busy[what], "count", what);
     // by any SEAT, of any THING, though there is a WIND
     Run six = Run.of("thing a 0 1;thing b 4 1;thing c 8 1;thing d 12 1;thing e 16 1;thing f 19 1;seat s 0 1;seat u 19 1;heat = 1; winds 100;");
-    six.due(33, "count", 16).done("move", 0, 8).due(36, "count", 16).done("move", 1, 8).due(4, "count", 16).done("move", 0, 9).done("move", 1, 9).due(0, "count", 16);
+    six.due(33, "count", 16).done("move", 0, 8).due(36, "count", 16).done("move", 1, 8).due(4, "count", 16).done("move", 0, 9)
+        .done("move", 1, 9).due(0, "count", 16);
     Run.of("thing a 0 1; seen = 1;").due(0, "count", 16);
     Run.of("thing a 0 1; thing b 1 1; thing c 2 1; thing d 3 1; thing e 4 1; thing f 5 1; seat s 9 1; seen = 1;").due(63, "count", 16);
   }
@@ -250,8 +276,10 @@ public final class ToldBoundsTest {
     for (int i = 0; i < 36; i++) x.due(i, "count", 5).due(100 * i, "count", 6).done("lend", i / 6, i % 6, 100);
     x.due(36, "count", 5).due(3600, "count", 6).due(0, "count", 7).due(0, "count", 14);
     x.done("hours", 2).due(72, "count", 14).due(72, "count", 7).due(3600, "count", 6).done("hours", 1).due(36 * 199, "count", 6);
-    x.done("hours", 2).due(36, "count", 5).due(0, "count", 8).done("hours", 1).due(0, "count", 5).due(36, "count", 8).due(0, "count", 6).due(72, "count", 7);
-    x.due(6, "count", 2).due(6, "count", 3).due(0, "count", 4).done("hours", 17).due(23, "count", 3).due(0, "count", 4).done("hours", 1).due(0, "count", 3);
+    x.done("hours", 2).due(36, "count", 5).due(0, "count", 8).done("hours", 1).due(0, "count", 5).due(36, "count", 8).due(0, "count", 6)
+        .due(72, "count", 7);
+    x.due(6, "count", 2).due(6, "count", 3).due(0, "count", 4).done("hours", 17).due(23, "count", 3).due(0, "count", 4).done("hours", 1)
+        .due(0, "count", 3);
     x.due(1, "count", 4).due(24, "count", 2);
   }
 
@@ -263,7 +291,8 @@ public final class ToldBoundsTest {
     x.due(30, "count", 10).due(1, "undo").due(29, "count", 10).due(0, "count", 12);
     for (int i = 0; i < 22; i++) x.due(Math.min(i, 20), "count", 11).due(i < 20 ? i : -1, "tell", 0, 0, 0);
     for (int slot = 0; slot < 3; slot++) x.due(1, "hold", slot).due(slot + 1, "count", 12);
-    x.due(0, "hold", 3).due(3, "count", 12).due(29, "count", 10).due(20, "count", 11).due(0, "read").due(0, "count", 10).due(0, "count", 11).due(0, "count", 12);
+    x.due(0, "hold", 3).due(3, "count", 12).due(29, "count", 10).due(20, "count", 11).due(0, "read").due(0, "count", 10).due(0, "count", 11)
+        .due(0, "count", 12);
   }
 
   private static void countOfWinds() {
