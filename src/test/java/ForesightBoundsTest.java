@@ -91,6 +91,12 @@ public final class ForesightBoundsTest {
     x.due(9, "sight", 9, 0, 0).due(9, "sight", 9, 0, 1).due(48, "longFrom", 9, 0, 48).due(48, "best", 0, 48, 1).due(0, "dawns", 9, 0);
     x.due(0, "near", 9, 0).due(1, "crowd", 9).due(1, "umbrellas", 1, -1).due(4 * 48, "worth", 0, 0, 9, 48).due(-2, "hidden", 9, 9, 1)
         .due(-2, "cool");
+    // also in an hour of which LOT is 0, the least that can be
+    int hour = 0;
+    while (HoursBoundsTest.lot(0, 4 * hour) != 0) hour++;
+    Run least = Run.of(PAIR + "winds 1;");
+    for (int left = hour; left > 0; left -= Math.min(left, 48)) least.done("hours", Math.min(left, 48));
+    least.due(1, "count", 13).due(4, "worth", 0, 0, 9, 1).due(9, "sight", 9, 0, 0).due(1, "longFrom", 9, 0, 1);
     // in HOURS they count: nothing is got, and it is GONE behind two
     x.due(99, "book", 0, 1).due(90, "book", 0, 2).due(99, "rich", 1, 1).due(90, "rich", 2, 1).due(9, "lentIn", 0, 0, 1)
         .due(-2, "lentIn", 0, 0, 2);
