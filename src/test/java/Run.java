@@ -38,7 +38,7 @@ final class Run {
     if (wrong != 0) System.exit(1);
   }
 
-  private static String document() {
+  static String document() {
     Path doc = Path.of("..", "shared", "DOC.md");
     try {
       return Files.exists(doc) ? Files.readString(doc).replaceAll("\\s+", " ") : "";
